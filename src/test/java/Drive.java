@@ -1,0 +1,69 @@
+/** Brings new objects to the points where the tests begin. */
+final class Drive {
+    private Drive() { }
+
+    static void deliverAll(LossyHandshake x) {
+        for (int i = 0; i < 200 && x.deliver(0) != LossyHandshake.BAD; i++) { }
+    }
+
+    static void dropAll(LossyHandshake x) {
+        while (x.drop(0)) { }
+    }
+
+    /** Answers how many records were sent. */
+    static int ticks(LossyHandshake x, int count) {
+        int sent = 0;
+        for (int i = 0; i < count; i++) {
+            sent += x.tick();
+        }
+        return sent;
+    }
+
+    /** The client is in state 2, its HELLO AGAIN alone in the net. */
+    static LossyHandshake helloAgainSent(int seed, int mtu) {
+        LossyHandshake x = new LossyHandshake(seed, mtu);
+        x.start();
+        x.deliver(0);
+        x.deliver(0);
+        return x;
+    }
+
+    /** The server is in state 1, its flight alone in the net. */
+    static LossyHandshake flightSent(int seed, int mtu) {
+        LossyHandshake x = helloAgainSent(seed, mtu);
+        x.deliver(0);
+        return x;
+    }
+
+    /** The client is in state 3, its DONE alone in the net. */
+    static LossyHandshake clientDoneSent(int seed, int mtu) {
+        LossyHandshake x = flightSent(seed, mtu);
+        for (int i = 0; i < 20 && x.state(0) == 2; i++) {
+            x.deliver(0);
+        }
+        return x;
+    }
+
+    /** Both sides are through, the net is empty. */
+    static LossyHandshake through(int seed, int mtu) {
+        LossyHandshake x = new LossyHandshake(seed, mtu);
+        x.start();
+        deliverAll(x);
+        return x;
+    }
+
+    /** Fills the net with copies of record 0. */
+    static void fill(LossyHandshake x) {
+        while (x.copy(0)) { }
+    }
+
+    /** The place of the first record that is a fragment of that message of that side; BAD if there is none. */
+    static int find(LossyHandshake x, int side, int message) {
+        for (int i = 0; i < x.waiting(); i++) {
+            if (x.record(i) / 100000 == 10 * side && x.content(i) / 10000 == message) {
+                return i;
+            }
+        }
+        return LossyHandshake.BAD;
+    }
+}
