@@ -670,6 +670,17 @@ public final class PromiseTest {
         x.send(0, 1);
         Check.due("8: a new record is not spoilt", x.deliver(0), 1);
         Check.due("8: received", x.received(1), 2);
+        for (int i = 0; i < 60; i++) {
+            x.send(0, i);
+            x.spoil(i);
+        }
+        Drive.dropAll(x);
+        for (int i = 0; i < 30; i++) {
+            x.send(0, i);
+        }
+        for (int i = 0; i < 30; i++) {
+            Check.due("8: none of the next ones is spoilt", x.deliver(0), 1);
+        }
     }
 
     private static void promise9And10() {
@@ -714,7 +725,12 @@ public final class PromiseTest {
     }
 
     private static void promise12() {
-        LossyHandshake x = Drive.helloAgainSent(31, 8);
+        LossyHandshake x = new LossyHandshake(31, 8);
+        x.start();
+        Check.due("12: HELLO", x.content(0), 8);
+        x.deliver(0);
+        Check.due("12: RETRY", x.content(0), 4);
+        x.deliver(0);
         Check.due("12: HELLO AGAIN", x.content(0), 10008);
         x = Drive.flightSent(31, 8);
         int[] due = {10004, 20006, 30008, 30808, 31608, 32408, 33208, 34003, 40004};
@@ -869,6 +885,32 @@ public final class PromiseTest {
         for (int side : NO_SIDES) {
             Check.due("16: no side " + side, x.open(side), BAD);
         }
+        promise16EverySending();
+    }
+
+    private static void promise16EverySending() {
+        LossyHandshake x = new LossyHandshake(0, 24);
+        x.start();
+        Drive.dropAll(x);
+        Drive.ticks(x, 155);
+        x.deliver(x.waiting() - 1);
+        x.deliver(x.waiting() - 1);
+        Drive.ticks(x, 155);
+        Check.due("16: the last HELLO AGAIN", x.record(x.waiting() - 1), 13);
+        x.deliver(x.waiting() - 1);
+        for (int i = 0; i < 4; i++) {
+            x.deliver(x.waiting() - 4 + i);
+        }
+        Check.due("16: the client's DONE", x.state(0), 3);
+        x.drop(x.waiting() - 1);
+        Drive.ticks(x, 155);
+        Check.due("16: the last DONE, before four of the server", x.record(x.waiting() - 5), 20006);
+        opens("seven times", x, 1, 4);
+        x.deliver(x.waiting() - 5);
+        opens("DONE at the server", x, 1, 0);
+        x.deliver(x.waiting() - 1);
+        opens("its ACK", x, 0, 0);
+        Check.due("16: acknowledged", x.state(0), 4);
     }
 
     private static void opens(String when, LossyHandshake x, int client, int server) {
