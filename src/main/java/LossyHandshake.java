@@ -203,15 +203,9 @@ public final class LossyHandshake {
             this.bytes = new int[length];
         }
 
-        void writeInt(int at, int number) {
-            for (int i = 0; i < INT_BYTES; i++) {
-                writeByte(at + i, number >>> (8 * i));
-            }
-        }
-
-        void writeByte(int at, int number) {
-            if (at >= 0 && at < bytes.length) {
-                bytes[at] = number & 255;
+        void writeInt(int start, int written) {
+            for (int i = 0; i < INT_BYTES && start + i < bytes.length; i++) {
+                bytes[start + i] = written >>> (8 * i) & 255;
             }
         }
 
@@ -266,7 +260,7 @@ public final class LossyHandshake {
     private static final class Flight {
         final Fragment[] fragments;
         int count;
-        int wait;
+        int waitLength;
         int ticksLeft;
         int resends;
 
@@ -283,7 +277,7 @@ public final class LossyHandshake {
 
         void begin() {
             count = 0;
-            wait = FIRST_WAIT;
+            waitLength = FIRST_WAIT;
             ticksLeft = FIRST_WAIT;
             resends = 0;
         }
@@ -296,8 +290,8 @@ public final class LossyHandshake {
         }
 
         void waitTwiceAsLong() {
-            wait = Math.min(2 * wait, LONGEST_WAIT);
-            ticksLeft = wait;
+            waitLength = Math.min(2 * waitLength, LONGEST_WAIT);
+            ticksLeft = waitLength;
             resends++;
         }
 
@@ -403,12 +397,12 @@ public final class LossyHandshake {
             return kind == FRAGMENT && k >= 0 && k < length ? load[k] : BAD;
         }
 
-        int readInt() {
-            int number = 0;
+        int readFirstInt() {
+            int read = 0;
             for (int i = 0; i < INT_BYTES; i++) {
-                number |= load[i] << (8 * i);
+                read |= load[i] << (8 * i);
             }
-            return number;
+            return read;
         }
     }
 
@@ -744,7 +738,7 @@ public final class LossyHandshake {
             }
             addBytesToTranscript(retry.load, 0, retry.length);
             helloAgain.writeInt(0, ownNumber);
-            helloAgain.writeInt(INT_BYTES, retry.readInt());
+            helloAgain.writeInt(INT_BYTES, retry.readFirstInt());
             sendFlight(helloAgain);
             enter(HELLO_AGAIN_SENT);
         }
@@ -819,7 +813,7 @@ public final class LossyHandshake {
         }
 
         void sendRetry(NetRecord hello) {
-            retry.writeInt(0, mix(secret, hello.readInt()));
+            retry.writeInt(0, mix(secret, hello.readFirstInt()));
             NetRecord row = net.append(self, FRAGMENT, PLAIN_EPOCH, hello.number);
             row.markAsPiece(RETRY, 0);
             row.hold(retry.bytes, retry.bytes.length);
@@ -833,7 +827,7 @@ public final class LossyHandshake {
             nextNumbers[PLAIN_EPOCH] = helloAgain.number;
             writes = HANDSHAKE_EPOCH;
             reads = HANDSHAKE_EPOCH;
-            workOutFlight(helloAgain.readInt());
+            workOutFlight(helloAgain.readFirstInt());
             sendOpenFragments();
             enter(FLIGHT_SENT);
         }
@@ -848,9 +842,9 @@ public final class LossyHandshake {
             addBytesToTranscript(helloAgain.load, 0, HELLO_BYTES);
         }
 
-        void workOutFlight(int clientNumber) {
-            answer.writeInt(0, mix(secret + 1, clientNumber));
-            terms.writeMixes(clientNumber);
+        void workOutFlight(int numberOfClient) {
+            answer.writeInt(0, mix(secret + 1, numberOfClient));
+            terms.writeMixes(numberOfClient);
             proof.writeMixes(secret + 2);
             addToTranscript(answer);
             addToTranscript(terms);

@@ -835,7 +835,7 @@ public final class PromiseTest {
             transcripts("TERMS", x, Contents.transcript(c.hello, c.retry, c.helloAgain, c.answer, c.terms), server);
             int whole = Contents.transcript(c.hello, c.retry, c.helloAgain, c.answer, c.terms, c.proof, c.serverDone,
                     c.clientDone);
-            while (x.state(0) == 2) {
+            for (int i = 0; i < 20 && x.state(0) == 2; i++) {
                 x.deliver(Drive.find(x, 1, 3));
             }
             transcripts("PROOF", x, whole, server);
@@ -874,9 +874,7 @@ public final class PromiseTest {
         x.deliver(x.waiting() - 1);
         opens("an ACK of ANSWER", x, 0, 8);
         Drive.ticks(x, 2);
-        while (x.state(0) == 2) {
-            x.deliver(0);
-        }
+        Drive.deliverWhileWaiting(x);
         opens("DONE", x, 1, 8);
         x.deliver(Drive.find(x, 0, 2));
         opens("the client's DONE", x, 1, 0);
@@ -934,9 +932,7 @@ public final class PromiseTest {
         Check.due("17: its end once more", x.kept(0), 15);
         Check.due("17: TERMS", x.deliver(0), 1);
         Check.due("17: are taken", x.kept(0), 15);
-        while (x.state(0) == 2) {
-            x.deliver(0);
-        }
+        Drive.deliverWhileWaiting(x);
         Check.due("17: all is taken", x.kept(0), 0);
         Check.due("17: the server keeps nothing", x.kept(1), 0);
         x.deliver(Drive.find(x, 0, 2));
