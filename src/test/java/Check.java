@@ -1,16 +1,24 @@
 /** Counts the answers that are not the ones that are due. */
 final class Check {
+    private static final int MOST_TOLD = 50;
+
     private static int asked;
     private static int wrong;
+    private static String part = "";
 
     private Check() { }
+
+    /** What is looked at from now on belongs to this part of a test, which a wrong answer is told with. */
+    static void begin(String name) {
+        part = name + ": ";
+    }
 
     static void due(String what, long got, long want) {
         asked++;
         if (got != want) {
             wrong++;
-            if (wrong <= 50) {
-                System.out.println(what + " answered " + got + ", due is " + want);
+            if (wrong <= MOST_TOLD) {
+                System.out.println(part + what + " answered " + got + ", due is " + want);
             }
         }
     }

@@ -180,7 +180,7 @@ final class Model {
     }
 
     boolean send(int side, int value) {
-        if (side < 0 || side > 1 || !parties[side].writes.contains(3) || parties[side].state == 5) {
+        if (noSide(side) || !parties[side].writes.contains(3) || parties[side].state == 5) {
             return false;
         }
         Rec r = new Rec();
@@ -351,27 +351,34 @@ final class Model {
         return has ? net.get(i).piece.bytes().get(k) : -1;
     }
 
+    boolean noSide(int side) {
+        return side < 0 || side > 1;
+    }
+
     int state(int side) {
-        return parties[side].state;
+        return noSide(side) ? -1 : parties[side].state;
     }
 
     int transcript(int side) {
-        return parties[side].transcript;
+        return noSide(side) ? 0 : parties[side].transcript;
     }
 
     int open(int side) {
-        return parties[side].flight.size();
+        return noSide(side) ? -1 : parties[side].flight.size();
     }
 
     int kept(int side) {
+        if (noSide(side)) {
+            return -1;
+        }
         return side == 1 ? 0 : pieces.tailMap(takenUpTo + 1).values().stream().mapToInt(Map::size).sum();
     }
 
     int received(int side) {
-        return parties[side].values.size();
+        return noSide(side) ? -1 : parties[side].values.size();
     }
 
     int value(int side, int i) {
-        return i < 0 || i >= parties[side].values.size() ? 0 : parties[side].values.get(i);
+        return noSide(side) || i < 0 || i >= parties[side].values.size() ? 0 : parties[side].values.get(i);
     }
 }

@@ -2,13 +2,13 @@ import java.util.Random;
 
 /** Long runs of calls drawn from fixed seeds, every answer against the model's. */
 public final class ModelTest {
-    private static final int RUNS = 1500;
-    private static final int CALLS = 512;
+    private static final int RUNS = 15000;
     private static final int[] EDGES = {Integer.MIN_VALUE, -1, 60, 61, Integer.MAX_VALUE};
+    private static final int[] NO_SIDES = {Integer.MIN_VALUE, -1, 2, 3, Integer.MAX_VALUE};
     private static final int[] SEEDS = {0, 1, 19, 31, 32, -1, Integer.MIN_VALUE, Integer.MAX_VALUE};
     private static final int[] MTUS = {8, 8, 9, 10, 12, 16, 23, 24, 7, 25, 0, Integer.MIN_VALUE, Integer.MAX_VALUE};
 
-    private static int[][] seenStates = new int[2][6];
+    private static final int[][] seenStates = new int[2][6];
 
     public static void main(String[] args) {
         for (int run = 0; run < RUNS; run++) {
@@ -27,16 +27,21 @@ public final class ModelTest {
         Random random = new Random(run);
         int seed = random.nextInt(3) == 0 ? SEEDS[random.nextInt(SEEDS.length)] : random.nextInt();
         int mtu = MTUS[random.nextInt(MTUS.length)];
-        LossyHandshake x = new LossyHandshake(seed, mtu);
+        Counted x = new Counted(seed, mtu);
         Model m = new Model(seed, mtu);
         int[] weights = weights(random);
-        int until = random.nextInt(10) == 0 ? random.nextInt(20) : CALLS;
-        for (int call = 0; call < until; call++) {
-            step(run, call, random, weights, x, m);
-            compare("run " + run + " after call " + call + ": ", x, m);
+        int looks = random.nextInt(4);
+        int callsNotUsed = random.nextInt(10) == 0 ? 490 : 0;
+        while (x.callsLeft() > callsNotUsed) {
+            Check.begin("run " + run + " before its last " + x.callsLeft() + " calls");
+            if (random.nextInt(4) < looks) {
+                look(random, x, m);
+            } else {
+                act(random, weights, x, m);
+            }
         }
-        seenStates[0][x.state(0)]++;
-        seenStates[1][x.state(1)]++;
+        seenStates[0][m.state(0)]++;
+        seenStates[1][m.state(1)]++;
     }
 
     /** How often a run starts, ticks, sends, delivers, drops, copies and spoils differs from run to run. */
@@ -66,57 +71,56 @@ public final class ModelTest {
         return 0;
     }
 
-    private static int place(Random random, int waiting) {
+    private static int place(Random random, int count) {
         int kind = random.nextInt(20);
         if (kind == 0) {
             return EDGES[random.nextInt(EDGES.length)];
         }
-        return kind < 12 ? 0 : kind < 14 ? waiting - 1 : random.nextInt(waiting + 1);
+        return kind < 12 ? 0 : kind < 14 ? count - 1 : random.nextInt(count + 1);
     }
 
-    private static void step(int run, int call, Random random, int[] weights, LossyHandshake x, Model m) {
+    private static int side(Random random) {
+        return random.nextInt(20) == 0 ? NO_SIDES[random.nextInt(NO_SIDES.length)] : random.nextInt(2);
+    }
+
+    private static void act(Random random, int[] weights, Counted x, Model m) {
         int i = place(random, m.net.size());
-        String at = "run " + run + " call " + call + ": ";
+        int side = side(random);
+        int value = random.nextInt();
         switch (choose(random, weights)) {
-            case 0 -> Check.due(at + "start()", bit(x.start()), bit(m.start()));
-            case 1 -> Check.due(at + "tick()", x.tick(), m.tick());
-            case 2 -> {
-                int side = random.nextInt(20) == 0 ? random.nextInt() : random.nextInt(2);
-                int value = random.nextInt();
-                Check.due(at + "send(" + side + ", " + value + ")", bit(x.send(side, value)),
-                        bit(m.send(side, value)));
+            case 0 -> Check.due("start", bit(x.start()), bit(m.start()));
+            case 1 -> Check.due("tick", x.tick(), m.tick());
+            case 2 -> Check.due("send", bit(x.send(side, value)), bit(m.send(side, value)));
+            case 3 -> Check.due("deliver", x.deliver(i), m.deliver(i));
+            case 4 -> Check.due("drop", bit(x.drop(i)), bit(m.drop(i)));
+            case 5 -> Check.due("copy", bit(x.copy(i)), bit(m.copy(i)));
+            default -> Check.due("spoil", bit(x.spoil(i)), bit(m.spoil(i)));
+        }
+    }
+
+    private static void look(Random random, Counted x, Model m) {
+        int i = random.nextInt(m.net.size() + 2) - 1;
+        int k = random.nextInt(28) - 1;
+        int side = side(random);
+        switch (random.nextInt(11)) {
+            case 0 -> Check.due("waiting", x.waiting(), m.net.size());
+            case 1 -> Check.due("lost", x.lost(), m.lost);
+            case 2 -> Check.due("record", x.record(i), m.record(i));
+            case 3 -> Check.due("content", x.content(i), m.content(i));
+            case 4 -> Check.due("byteOf", x.byteOf(i, k), m.byteOf(i, k));
+            case 5 -> Check.due("state", x.state(side), m.state(side));
+            case 6 -> Check.due("transcript", x.transcript(side), m.transcript(side));
+            case 7 -> Check.due("open", x.open(side), m.open(side));
+            case 8 -> Check.due("kept", x.kept(side), m.kept(side));
+            case 9 -> Check.due("received", x.received(side), m.received(side));
+            default -> {
+                int at = place(random, m.noSide(side) ? 0 : m.received(side));
+                Check.due("value", x.value(side, at), m.value(side, at));
             }
-            case 3 -> Check.due(at + "deliver(" + i + ")", x.deliver(i), m.deliver(i));
-            case 4 -> Check.due(at + "drop(" + i + ")", bit(x.drop(i)), bit(m.drop(i)));
-            case 5 -> Check.due(at + "copy(" + i + ")", bit(x.copy(i)), bit(m.copy(i)));
-            default -> Check.due(at + "spoil(" + i + ")", bit(x.spoil(i)), bit(m.spoil(i)));
         }
     }
 
     private static int bit(boolean b) {
         return b ? 1 : 0;
-    }
-
-    private static void compare(String at, LossyHandshake x, Model m) {
-        Check.due(at + "waiting()", x.waiting(), m.net.size());
-        Check.due(at + "lost()", x.lost(), m.lost);
-        for (int i = -1; i <= m.net.size(); i++) {
-            Check.due(at + "record " + i, x.record(i), m.record(i));
-            Check.due(at + "content " + i, x.content(i), m.content(i));
-            int last = i + 1 >= m.net.size() ? 25 : 1;
-            for (int k = -1; k < last; k++) {
-                Check.due(at + "byteOf " + i, x.byteOf(i, k), m.byteOf(i, k));
-            }
-        }
-        for (int side = 0; side < 2; side++) {
-            Check.due(at + "state " + side, x.state(side), m.state(side));
-            Check.due(at + "transcript " + side, x.transcript(side), m.transcript(side));
-            Check.due(at + "open " + side, x.open(side), m.open(side));
-            Check.due(at + "kept " + side, x.kept(side), m.kept(side));
-            Check.due(at + "received " + side, x.received(side), m.received(side));
-            for (int i = -1; i <= m.received(side); i++) {
-                Check.due(at + "value " + side + " " + i, x.value(side, i), m.value(side, i));
-            }
-        }
     }
 }

@@ -43,7 +43,7 @@ public final class PromiseTest {
 
     private static void promise1() {
         for (int seed : SEEDS) {
-            LossyHandshake x = new LossyHandshake(seed, 8);
+            Counted x = new Counted(seed, 8);
             Check.due("1: waiting", x.waiting(), 0);
             Check.due("1: lost", x.lost(), 0);
             for (int side = 0; side < 2; side++) {
@@ -69,7 +69,7 @@ public final class PromiseTest {
         }
     }
 
-    private static void cutsProof(LossyHandshake x, int seed, int mtu) {
+    private static void cutsProof(Counted x, int seed, int mtu) {
         byte[] proof = new Contents(seed).proof;
         int i = 2;
         for (int at = 0; at < proof.length; at += mtu) {
@@ -82,7 +82,7 @@ public final class PromiseTest {
         Check.due("1: and nothing more", x.waiting(), i + 1);
     }
 
-    private static void holds(String what, LossyHandshake x, int i, int at, int length, byte[] message) {
+    private static void holds(String what, Counted x, int i, int at, int length, byte[] message) {
         for (int k = 0; k < length; k++) {
             Check.due(what + " byte " + (at + k), x.byteOf(i, k), message[at + k] & 255);
         }
@@ -91,7 +91,7 @@ public final class PromiseTest {
 
     private static void promise2() {
         for (int seed : SEEDS) {
-            LossyHandshake x = new LossyHandshake(seed, 8);
+            Counted x = new Counted(seed, 8);
             Check.yes("2: start", x.start());
             Check.due("2: state", x.state(0), 1);
             Check.due("2: open", x.open(0), 1);
@@ -106,18 +106,18 @@ public final class PromiseTest {
         startsNoMore("state 2", Drive.helloAgainSent(4, 8), 2);
         startsNoMore("state 3", Drive.clientDoneSent(4, 8), 3);
         startsNoMore("state 4", Drive.through(4, 8), 4);
-        LossyHandshake failed = new LossyHandshake(4, 8);
+        Counted failed = new Counted(4, 8);
         failed.start();
         Drive.ticks(failed, 156);
         startsNoMore("state 5", failed, 5);
-        LossyHandshake late = new LossyHandshake(4, 8);
+        Counted late = new Counted(4, 8);
         Drive.ticks(late, 100);
         Check.yes("2: start later", late.start());
         Check.due("2: three ticks", Drive.ticks(late, 3), 0);
         Check.due("2: the fourth", late.tick(), 1);
     }
 
-    private static void startsNoMore(String when, LossyHandshake x, int state) {
+    private static void startsNoMore(String when, Counted x, int state) {
         int waiting = x.waiting();
         int open = x.open(0);
         int transcript = x.transcript(0);
@@ -129,7 +129,7 @@ public final class PromiseTest {
     }
 
     /** After 4, 8, 16, 32, 32 and 32 ticks a flight is sent again; after 32 more its side fails. */
-    private static void sendsAgainAndFails(String what, LossyHandshake x, int side, int records) {
+    private static void sendsAgainAndFails(String what, Counted x, int side, int records) {
         int[] waits = {4, 8, 16, 32, 32, 32};
         for (int wait : waits) {
             Drive.dropAll(x);
@@ -148,14 +148,14 @@ public final class PromiseTest {
     }
 
     private static void promise3Hello() {
-        LossyHandshake x = new LossyHandshake(9, 8);
+        Counted x = new Counted(9, 8);
         x.start();
         sendsAgainAndFails("3: HELLO", x, 0, 1);
         Check.due("3: the server has seen nothing", x.state(1), 0);
     }
 
     private static void promise3HelloAgain() {
-        LossyHandshake x = new LossyHandshake(9, 8);
+        Counted x = new Counted(9, 8);
         x.start();
         Drive.ticks(x, 30);
         Check.due("3: HELLO four times", x.waiting(), 4);
@@ -166,7 +166,7 @@ public final class PromiseTest {
     }
 
     private static void promise3Done() {
-        LossyHandshake x = Drive.clientDoneSent(9, 24);
+        Counted x = Drive.clientDoneSent(9, 24);
         x.deliver(0);
         Check.due("3: the server cares no more", x.state(1), 2);
         sendsAgainAndFails("3: DONE", x, 0, 1);
@@ -177,7 +177,7 @@ public final class PromiseTest {
     }
 
     private static void promise3Flight() {
-        LossyHandshake x = Drive.flightSent(31, 8);
+        Counted x = Drive.flightSent(31, 8);
         Check.due("3: ANSWER", x.deliver(0), 1);
         Drive.ticks(x, 2);
         Check.due("3: the ACK goes", x.record(8), 120000);
@@ -203,7 +203,7 @@ public final class PromiseTest {
     }
 
     private static void promise3OpenOnly() {
-        LossyHandshake x = Drive.flightSent(31, 8);
+        Counted x = Drive.flightSent(31, 8);
         x.deliver(0);
         x.deliver(0);
         x.deliver(2);
@@ -239,7 +239,7 @@ public final class PromiseTest {
     }
 
     private static void promise3AckDue() {
-        LossyHandshake x = Drive.flightSent(0, 8);
+        Counted x = Drive.flightSent(0, 8);
         x.deliver(0);
         Check.due("3: not at once", x.waiting(), 4);
         Check.due("3: not after one tick", x.tick(), 0);
@@ -260,7 +260,7 @@ public final class PromiseTest {
     }
 
     private static void promise3AckPutOff() {
-        LossyHandshake x = Drive.flightSent(31, 8);
+        Counted x = Drive.flightSent(31, 8);
         x.deliver(0);
         x.tick();
         x.deliver(0);
@@ -272,7 +272,7 @@ public final class PromiseTest {
     }
 
     private static void promise3Order() {
-        LossyHandshake x = Drive.flightSent(0, 24);
+        Counted x = Drive.flightSent(0, 24);
         Drive.ticks(x, 2);
         x.deliver(0);
         Drive.dropAll(x);
@@ -288,7 +288,7 @@ public final class PromiseTest {
     }
 
     private static void promise3Lost() {
-        LossyHandshake x = Drive.flightSent(31, 8);
+        Counted x = Drive.flightSent(31, 8);
         Drive.fill(x);
         Check.due("3: all are lost and counted", Drive.ticks(x, 4), 10);
         Check.due("3: lost", x.lost(), 10);
@@ -301,7 +301,7 @@ public final class PromiseTest {
     }
 
     private static void promise4() {
-        LossyHandshake x = new LossyHandshake(7, 8);
+        Counted x = new Counted(7, 8);
         sendsNothing("a new object", x, true, true);
         x.start();
         sendsNothing("HELLO", x, true, true);
@@ -322,14 +322,14 @@ public final class PromiseTest {
         Check.due("4: let in", x.deliver(1), 1);
         Check.due("4: value", x.value(1, 0), 13);
         sendsNothing("both through", Drive.through(7, 8), false, false);
-        LossyHandshake failed = Drive.clientDoneSent(7, 8);
+        Counted failed = Drive.clientDoneSent(7, 8);
         Drive.ticks(failed, 156);
         Check.due("4: both failed", failed.state(0) * 10 + failed.state(1), 55);
         Drive.dropAll(failed);
         sendsNothing("both failed", failed, true, true);
     }
 
-    private static void sendsNothing(String when, LossyHandshake x, boolean client, boolean server) {
+    private static void sendsNothing(String when, Counted x, boolean client, boolean server) {
         int waiting = x.waiting();
         for (int side : NO_SIDES) {
             Check.no("4: no such side, " + when, x.send(side, 1));
@@ -345,7 +345,7 @@ public final class PromiseTest {
     }
 
     private static void promise4Lost() {
-        LossyHandshake x = Drive.through(7, 8);
+        Counted x = Drive.through(7, 8);
         x.send(0, 1);
         Drive.fill(x);
         Check.yes("4: a lost one", x.send(0, 2));
@@ -359,7 +359,7 @@ public final class PromiseTest {
     }
 
     private static void promise5Wrong() {
-        LossyHandshake x = new LossyHandshake(3, 8);
+        Counted x = new Counted(3, 8);
         Check.due("5: none", x.deliver(0), BAD);
         x.start();
         for (int i : new int[] {-1, 1, 60, Integer.MIN_VALUE, Integer.MAX_VALUE}) {
@@ -369,7 +369,7 @@ public final class PromiseTest {
     }
 
     private static void promise5Server() {
-        LossyHandshake x = new LossyHandshake(3, 8);
+        Counted x = new Counted(3, 8);
         Contents c = new Contents(3);
         x.start();
         Drive.ticks(x, 4);
@@ -411,7 +411,7 @@ public final class PromiseTest {
     }
 
     private static void promise5Client() {
-        LossyHandshake x = Drive.clientDoneSent(3, 8);
+        Counted x = Drive.clientDoneSent(3, 8);
         x.copy(0);
         Check.due("5: DONE at the server", x.deliver(0), 1);
         Check.due("5: an ACK in epoch 3", x.record(1), 1130000);
@@ -439,7 +439,7 @@ public final class PromiseTest {
     }
 
     private static void promise5ThrownAway() {
-        LossyHandshake x = new LossyHandshake(3, 8);
+        Counted x = new Counted(3, 8);
         x.start();
         x.spoil(0);
         Check.due("5: a spoilt HELLO", x.deliver(0), 0);
@@ -464,7 +464,7 @@ public final class PromiseTest {
             Check.due("5: a failed side lets nothing in", x.deliver(0), 0);
         }
         Check.due("5: nor does it answer", x.waiting(), 0);
-        x = new LossyHandshake(3, 8);
+        x = new Counted(3, 8);
         x.start();
         x.copy(0);
         x.deliver(0);
@@ -477,7 +477,7 @@ public final class PromiseTest {
     }
 
     private static void promise5Window() {
-        LossyHandshake x = Drive.through(3, 8);
+        Counted x = Drive.through(3, 8);
         for (int i = 0; i < 40; i++) {
             x.send(0, i);
         }
@@ -516,7 +516,7 @@ public final class PromiseTest {
     }
 
     private static void promise5ServerNumbers() {
-        LossyHandshake x = new LossyHandshake(3, 24);
+        Counted x = new Counted(3, 24);
         x.start();
         Drive.ticks(x, 124);
         Check.due("5: HELLO seven times", x.waiting(), 7);
@@ -534,7 +534,7 @@ public final class PromiseTest {
         Check.due("5: ANSWER again", x.record(15), 1000014);
         Check.due("5: HELLO 0 is less by 13", x.deliver(0), 1);
         Check.due("5: its RETRY", x.record(x.waiting() - 1), 1000000);
-        x = new LossyHandshake(3, 24);
+        x = new Counted(3, 24);
         x.start();
         x.copy(0);
         x.deliver(0);
@@ -553,7 +553,7 @@ public final class PromiseTest {
     }
 
     private static void promise5AckNames() {
-        LossyHandshake x = Drive.flightSent(31, 8);
+        Counted x = Drive.flightSent(31, 8);
         for (int i = 0; i < 8; i++) {
             x.deliver(0);
         }
@@ -589,8 +589,8 @@ public final class PromiseTest {
         Check.due("5: it is open no more", x.open(1), 3);
     }
 
-    private static LossyHandshake threeData() {
-        LossyHandshake x = Drive.through(3, 8);
+    private static Counted threeData() {
+        Counted x = Drive.through(3, 8);
         x.send(0, 10);
         x.send(1, 20);
         x.send(0, 30);
@@ -598,8 +598,8 @@ public final class PromiseTest {
     }
 
     private static void promise6() {
-        Check.no("6: none", new LossyHandshake(3, 8).drop(0));
-        LossyHandshake x = threeData();
+        Check.no("6: none", new Counted(3, 8).drop(0));
+        Counted x = threeData();
         for (int i : new int[] {-1, 3, 60, Integer.MIN_VALUE, Integer.MAX_VALUE}) {
             Check.no("6: no record " + i, x.drop(i));
         }
@@ -617,8 +617,8 @@ public final class PromiseTest {
     }
 
     private static void promise7() {
-        Check.no("7: none", new LossyHandshake(3, 8).copy(0));
-        LossyHandshake x = threeData();
+        Check.no("7: none", new Counted(3, 8).copy(0));
+        Counted x = threeData();
         for (int i : new int[] {-1, 3, 60, Integer.MIN_VALUE, Integer.MAX_VALUE}) {
             Check.no("7: no record " + i, x.copy(i));
         }
@@ -641,7 +641,7 @@ public final class PromiseTest {
         Check.no("7: none such", x.copy(60));
         Check.due("7: waiting", x.waiting(), 60);
         Check.due("7: lost", x.lost(), 0);
-        LossyHandshake f = Drive.flightSent(31, 8);
+        Counted f = Drive.flightSent(31, 8);
         f.copy(3);
         Check.due("7: a fragment", f.content(9), f.content(3));
         Check.due("7: its record", f.record(9), f.record(3));
@@ -656,8 +656,8 @@ public final class PromiseTest {
     }
 
     private static void promise8() {
-        Check.no("8: none", new LossyHandshake(3, 8).spoil(0));
-        LossyHandshake x = threeData();
+        Check.no("8: none", new Counted(3, 8).spoil(0));
+        Counted x = threeData();
         for (int i : new int[] {-1, 3, 60, Integer.MIN_VALUE, Integer.MAX_VALUE}) {
             Check.no("8: no record " + i, x.spoil(i));
         }
@@ -684,7 +684,7 @@ public final class PromiseTest {
     }
 
     private static void promise9And10() {
-        LossyHandshake x = new LossyHandshake(31, 8);
+        Counted x = new Counted(31, 8);
         x.start();
         Check.due("9: one", x.waiting(), 1);
         Drive.fill(x);
@@ -707,7 +707,7 @@ public final class PromiseTest {
     }
 
     private static void promise11() {
-        LossyHandshake x = Drive.flightSent(31, 8);
+        Counted x = Drive.flightSent(31, 8);
         Check.due("11: ANSWER", x.record(0), 1000001);
         for (int i = 1; i < 9; i++) {
             Check.due("11: the others", x.record(i), 1020000 + i - 1);
@@ -725,7 +725,7 @@ public final class PromiseTest {
     }
 
     private static void promise12() {
-        LossyHandshake x = new LossyHandshake(31, 8);
+        Counted x = new Counted(31, 8);
         x.start();
         Check.due("12: HELLO", x.content(0), 8);
         x.deliver(0);
@@ -751,7 +751,7 @@ public final class PromiseTest {
     private static void promise13() {
         for (int seed : SEEDS) {
             Contents c = new Contents(seed);
-            LossyHandshake x = new LossyHandshake(seed, 24);
+            Counted x = new Counted(seed, 24);
             x.start();
             holds("13: HELLO", x, 0, 0, 8, c.hello);
             x.deliver(0);
@@ -779,7 +779,7 @@ public final class PromiseTest {
     }
 
     private static void promise14() {
-        LossyHandshake x = new LossyHandshake(6, 24);
+        Counted x = new Counted(6, 24);
         states("new", x, 0, 0);
         x.start();
         states("HELLO", x, 1, 0);
@@ -804,7 +804,7 @@ public final class PromiseTest {
         }
     }
 
-    private static void states(String when, LossyHandshake x, int client, int server) {
+    private static void states(String when, Counted x, int client, int server) {
         Check.due("14: the client, " + when, x.state(0), client);
         Check.due("14: the server, " + when, x.state(1), server);
     }
@@ -812,7 +812,7 @@ public final class PromiseTest {
     private static void promise15() {
         for (int seed : SEEDS) {
             Contents c = new Contents(seed);
-            LossyHandshake x = new LossyHandshake(seed, 24);
+            Counted x = new Counted(seed, 24);
             x.start();
             x.copy(0);
             x.copy(0);
@@ -850,13 +850,13 @@ public final class PromiseTest {
         }
     }
 
-    private static void transcripts(String when, LossyHandshake x, int client, int server) {
+    private static void transcripts(String when, Counted x, int client, int server) {
         Check.due("15: the client, " + when, x.transcript(0), client);
         Check.due("15: the server, " + when, x.transcript(1), server);
     }
 
     private static void promise16() {
-        LossyHandshake x = new LossyHandshake(31, 8);
+        Counted x = new Counted(31, 8);
         opens("new", x, 0, 0);
         x.start();
         opens("HELLO", x, 1, 0);
@@ -887,7 +887,7 @@ public final class PromiseTest {
     }
 
     private static void promise16EverySending() {
-        LossyHandshake x = new LossyHandshake(0, 24);
+        Counted x = new Counted(0, 24);
         x.start();
         Drive.dropAll(x);
         Drive.ticks(x, 155);
@@ -911,13 +911,13 @@ public final class PromiseTest {
         Check.due("16: acknowledged", x.state(0), 4);
     }
 
-    private static void opens(String when, LossyHandshake x, int client, int server) {
+    private static void opens(String when, Counted x, int client, int server) {
         Check.due("16: the client, " + when, x.open(0), client);
         Check.due("16: the server, " + when, x.open(1), server);
     }
 
     private static void promise17() {
-        LossyHandshake x = Drive.flightSent(31, 8);
+        Counted x = Drive.flightSent(31, 8);
         Check.due("17: nothing", x.kept(0), 0);
         x.deliver(0);
         Check.due("17: ANSWER is taken", x.kept(0), 0);
@@ -943,27 +943,27 @@ public final class PromiseTest {
     }
 
     private static void promise18And19() {
-        LossyHandshake x = Drive.through(31, 8);
-        for (int i = 0; i < 65; i++) {
-            x.send(0, 1000 + i);
-            x.send(1, -i);
-            Check.due("18: let in", x.deliver(0), 1);
-            Check.due("18: let in", x.deliver(0), 1);
-            Check.due("18: the server", x.received(1), Math.min(60, i + 1));
-            Check.due("18: the client", x.received(0), Math.min(60, i + 1));
+        for (int side = 0; side < 2; side++) {
+            Counted x = Drive.through(31, 8);
+            for (int i = 0; i < 65; i++) {
+                x.send(1 - side, 1000 - 20 * i);
+                Check.due("18: let in", x.deliver(0), 1);
+                Check.due("18: received", x.received(side), Math.min(60, i + 1));
+                Check.due("18: the other side", x.received(1 - side), 0);
+            }
+            for (int i = 0; i < 60; i++) {
+                Check.due("19: value " + i, x.value(side, i), 1000 - 20 * i);
+                Check.due("19: the other side", x.value(1 - side, i), 0);
+            }
+            for (int i : new int[] {-1, 60, 64, Integer.MIN_VALUE, Integer.MAX_VALUE}) {
+                Check.due("19: no value " + i, x.value(side, i), 0);
+            }
+            for (int none : NO_SIDES) {
+                Check.due("18: no side " + none, x.received(none), BAD);
+                Check.due("19: no side " + none, x.value(none, 0), 0);
+            }
         }
-        for (int i = 0; i < 60; i++) {
-            Check.due("19: the server", x.value(1, i), 1000 + i);
-            Check.due("19: the client", x.value(0, i), -i);
-        }
-        for (int i : new int[] {-1, 60, 64, Integer.MIN_VALUE, Integer.MAX_VALUE}) {
-            Check.due("19: no value " + i, x.value(1, i), 0);
-        }
-        for (int side : NO_SIDES) {
-            Check.due("18: no side " + side, x.received(side), BAD);
-            Check.due("19: no side " + side, x.value(side, 0), 0);
-        }
-        x = Drive.through(31, 8);
+        Counted x = Drive.through(31, 8);
         x.send(0, Integer.MIN_VALUE);
         x.deliver(0);
         Check.due("19: one", x.value(1, 0), Integer.MIN_VALUE);
