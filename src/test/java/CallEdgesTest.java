@@ -5,41 +5,52 @@ public final class CallEdgesTest {
     private static final int[] NO_SIDES = {-1, 2, 3, 100, Integer.MIN_VALUE, Integer.MAX_VALUE};
 
     public static void main(String[] args) {
-        aSmallMtuCountsAs8();
-        aLargeMtuCountsAs24();
-        anMtuBetweenCountsAsItself();
-        nothingWasSentAtFirst();
-        startIsRefused();
-        tickCountsBothSides();
-        tickCountsLostOnes();
-        sendIsTrueIfItIsLost();
-        sendIsRefusedForNoSide();
-        sendIsRefusedBeforeEpoch3();
-        sendIsRefusedAfterFailing();
-        deliverIsBadForNoRecord();
-        deliverIsZeroForANewServersHello();
-        dropIsRefused();
-        copyIsLikeItsRecord();
-        copyIsRefusedForNoRecord();
-        copyIsRefusedWith60There();
-        spoilIsRefused();
-        waitingGoesFrom0To60();
-        aRefusedCopyIsNotLost();
-        recordIsBadForNoRecord();
-        contentIsBadForNoRecord();
-        byteOfIsBadForNoRecord();
-        byteOfIsBadForNoByte();
-        byteOfIsBadForNoFragment();
-        byteOfGoesUpTo255();
-        stateIsBadForNoSide();
-        transcriptIs0ForNoSide();
-        openIsBadForNoSide();
-        keptIsBadForNoSide();
-        theServerKeepsNothing();
-        receivedIsBadForNoSide();
-        valueIs0ForNoneSuch();
-        looksChangeNothing();
-        theLastCallIsAnswered();
+        Check.part("less than 8 counts as 8", CallEdgesTest::aSmallMtuCountsAs8);
+        Check.part("more than 24 as 24", CallEdgesTest::aLargeMtuCountsAs24);
+        Check.part("how many bytes a fragment has at most", CallEdgesTest::anMtuBetweenCountsAsItself);
+        Check.part("Nothing was sent; the clock is 0.", CallEdgesTest::nothingWasSentAtFirst);
+        Check.part("True; false, changing nothing, if its state is not 0.", CallEdgesTest::startIsRefused);
+        Check.part("Answers how many records were sent in it by both sides", CallEdgesTest::tickCountsBothSides);
+        Check.part("lost ones included", CallEdgesTest::tickCountsLostOnes);
+        Check.part("True (also if it is LOST, its number being used then)", CallEdgesTest::sendIsTrueIfItIsLost);
+        Check.part("false, changing nothing, if there is no such side", CallEdgesTest::sendIsRefusedForNoSide);
+        Check.part("false, changing nothing, if .. it does not write epoch 3",
+                CallEdgesTest::sendIsRefusedBeforeEpoch3);
+        Check.part("false, changing nothing, if .. or has failed", CallEdgesTest::sendIsRefusedAfterFailing);
+        Check.part("deliver: BAD if there is none such.", CallEdgesTest::deliverIsBadForNoRecord);
+        Check.part("0 if not (so of a HELLO at the server in state 0, to which RETRY is sent all the same)",
+                CallEdgesTest::deliverIsZeroForANewServersHello);
+        Check.part("drop: True; false if there is none such.", CallEdgesTest::dropIsRefused);
+        Check.part("A record like record i, spoilt if that is, is put into the net as one that is sent is.",
+                CallEdgesTest::copyIsLikeItsRecord);
+        Check.part("copy: false, changing nothing, if there is none such", CallEdgesTest::copyIsRefusedForNoRecord);
+        Check.part("copy: false, changing nothing, if .. 60 are there", CallEdgesTest::copyIsRefusedWith60There);
+        Check.part("spoil: True; false if there is none such.", CallEdgesTest::spoilIsRefused);
+        Check.part("Record i is spoilt from now on.", CallEdgesTest::aSpoiltRecordStaysSpoilt);
+        Check.part("How many records are in the net.", CallEdgesTest::waitingGoesFrom0To60);
+        Check.part("How many records were lost because 60 were there (a copy that is refused is none).",
+                CallEdgesTest::aRefusedCopyIsNotLost);
+        Check.part("record: BAD if there is none such.", CallEdgesTest::recordIsBadForNoRecord);
+        Check.part("content: BAD if there is none such.", CallEdgesTest::contentIsBadForNoRecord);
+        Check.part("of an ACK how many names; of DATA 0", CallEdgesTest::contentOfWhatIsNoFragment);
+        Check.part("BAD if record i is none", CallEdgesTest::byteOfIsBadForNoRecord);
+        Check.part("BAD if record i .. has no such byte", CallEdgesTest::byteOfIsBadForNoByte);
+        Check.part("Byte k of a fragment (0 .. 255); BAD if record i .. has no such byte (an ACK, DATA)",
+                CallEdgesTest::byteOfIsBadForNoFragment);
+        Check.part("Byte k of a fragment (0 .. 255)", CallEdgesTest::byteOfGoesUpTo255);
+        Check.part("state: BAD if there is no such side.", CallEdgesTest::stateIsBadForNoSide);
+        Check.part("transcript: 0 if there is no such side.", CallEdgesTest::transcriptIs0ForNoSide);
+        Check.part("open: BAD if there is no such side.", CallEdgesTest::openIsBadForNoSide);
+        Check.part("kept: BAD if there is no such side.", CallEdgesTest::keptIsBadForNoSide);
+        Check.part("How many bytes of messages that are not taken yet a side keeps (the server none)",
+                CallEdgesTest::theServerKeepsNothing);
+        Check.part("received: BAD if there is no such side.", CallEdgesTest::receivedIsBadForNoSide);
+        Check.part("Value i that a side received; 0 if there is none such.", CallEdgesTest::valueIs0ForNoneSuch);
+        Check.part("DATA (an int)", CallEdgesTest::anyIntIsData);
+        Check.part("Nothing is promised beyond the answers and state changes described above (so looking changes none)",
+                CallEdgesTest::looksChangeNothing);
+        Check.part("An object is used for at most 512 calls after it has been made",
+                CallEdgesTest::theLastCallIsAnswered);
         Check.end();
     }
 
@@ -57,7 +68,6 @@ public final class CallEdgesTest {
     }
 
     private static void aSmallMtuCountsAs8() {
-        Check.begin("less than 8 counts as 8");
         for (int mtu : new int[] {7, 6, 1, 0, -1, -8, -100, Integer.MIN_VALUE + 1, Integer.MIN_VALUE}) {
             Counted x = Drive.flightSent(31, mtu);
             Check.due("first piece by " + mtu, x.content(2), 30008);
@@ -68,7 +78,6 @@ public final class CallEdgesTest {
     }
 
     private static void aLargeMtuCountsAs24() {
-        Check.begin("more than 24 as 24");
         for (int mtu : new int[] {25, 26, 32, 43, 100, Integer.MAX_VALUE - 1, Integer.MAX_VALUE}) {
             Counted x = Drive.flightSent(31, mtu);
             Check.due("first piece by " + mtu, x.content(2), 30024);
@@ -79,7 +88,6 @@ public final class CallEdgesTest {
     }
 
     private static void anMtuBetweenCountsAsItself() {
-        Check.begin("how many bytes a fragment has at most");
         for (int mtu = 8; mtu <= 24; mtu++) {
             Counted x = Drive.flightSent(31, mtu);
             Check.due("first piece by " + mtu, x.content(2), 30000 + mtu);
@@ -87,7 +95,6 @@ public final class CallEdgesTest {
     }
 
     private static void nothingWasSentAtFirst() {
-        Check.begin("Nothing was sent; the clock is 0.");
         Counted x = new Counted(3, 8);
         Check.due("waiting", x.waiting(), 0);
         Check.due("lost", x.lost(), 0);
@@ -128,7 +135,6 @@ public final class CallEdgesTest {
     }
 
     private static void startIsRefused() {
-        Check.begin("True; false, changing nothing, if its state is not 0.");
         Check.yes("state 0", new Counted(0, 24).start());
         for (int state = 1; state <= 5; state++) {
             Counted x = clientInState(state);
@@ -140,7 +146,6 @@ public final class CallEdgesTest {
     }
 
     private static void tickCountsBothSides() {
-        Check.begin("Answers how many records were sent in it by both sides");
         Counted x = new Counted(31, 8);
         Check.due("a new object", x.tick(), 0);
         x = Drive.flightSent(31, 8);
@@ -151,7 +156,6 @@ public final class CallEdgesTest {
     }
 
     private static void tickCountsLostOnes() {
-        Check.begin("lost ones included");
         Counted x = Drive.flightSent(31, 8);
         Drive.copyUntil(x, 0, FULL);
         Drive.ticks(x, 3);
@@ -166,7 +170,6 @@ public final class CallEdgesTest {
     }
 
     private static void sendIsTrueIfItIsLost() {
-        Check.begin("True (also if it is LOST, its number being used then)");
         Counted x = threeSent();
         Drive.copyUntil(x, 0, FULL);
         Check.yes("the client", x.send(0, 1));
@@ -182,7 +185,6 @@ public final class CallEdgesTest {
     }
 
     private static void sendIsRefusedForNoSide() {
-        Check.begin("false, changing nothing, if there is no such side");
         for (int side : NO_SIDES) {
             Counted x = threeSent();
             Check.no("side " + side, x.send(side, 7));
@@ -211,7 +213,6 @@ public final class CallEdgesTest {
     }
 
     private static void sendIsRefusedBeforeEpoch3() {
-        Check.begin("false, changing nothing, if .. it does not write epoch 3");
         for (int side = 0; side < 2; side++) {
             sendIsRefused("a new object", side, new Counted(0, 24), new Counted(0, 24));
             sendIsRefused("HELLO", side, clientInState(1), clientInState(1));
@@ -234,7 +235,6 @@ public final class CallEdgesTest {
     }
 
     private static void sendIsRefusedAfterFailing() {
-        Check.begin("false, changing nothing, if .. or has failed");
         Counted x = doneFailed();
         Check.due("the client", x.state(0), 5);
         Check.due("the server", x.state(1), 5);
@@ -249,7 +249,6 @@ public final class CallEdgesTest {
     }
 
     private static void deliverIsBadForNoRecord() {
-        Check.begin("deliver: BAD if there is none such.");
         for (int i : noRecords(3)) {
             Counted x = threeSent();
             Check.due("record " + i, x.deliver(i), BAD);
@@ -263,7 +262,6 @@ public final class CallEdgesTest {
     }
 
     private static void deliverIsZeroForANewServersHello() {
-        Check.begin("0 if not (so of a HELLO at the server in state 0, to which RETRY is sent all the same)");
         Counted x = new Counted(3, 8);
         x.start();
         Check.due("HELLO", x.deliver(0), 0);
@@ -275,7 +273,6 @@ public final class CallEdgesTest {
     }
 
     private static void dropIsRefused() {
-        Check.begin("drop: True; false if there is none such.");
         for (int i : noRecords(3)) {
             Counted x = threeSent();
             Check.no("record " + i, x.drop(i));
@@ -292,7 +289,6 @@ public final class CallEdgesTest {
     }
 
     private static void copyIsLikeItsRecord() {
-        Check.begin("A record like record i, spoilt if that is, is put into the net as one that is sent is.");
         Counted x = threeSent();
         Check.yes("not spoilt", x.copy(0));
         x.spoil(0);
@@ -316,7 +312,6 @@ public final class CallEdgesTest {
     }
 
     private static void copyIsRefusedForNoRecord() {
-        Check.begin("copy: false, changing nothing, if there is none such");
         for (int i : noRecords(3)) {
             Counted x = threeSent();
             Check.no("record " + i, x.copy(i));
@@ -325,7 +320,6 @@ public final class CallEdgesTest {
     }
 
     private static void copyIsRefusedWith60There() {
-        Check.begin("copy: false, changing nothing, if .. 60 are there");
         Counted x = threeSent();
         Drive.copyUntil(x, 0, FULL - 1);
         Check.yes("with 59 there", x.copy(1));
@@ -343,7 +337,6 @@ public final class CallEdgesTest {
     }
 
     private static void spoilIsRefused() {
-        Check.begin("spoil: True; false if there is none such.");
         for (int i : noRecords(3)) {
             Counted x = threeSent();
             Check.no("record " + i, x.spoil(i));
@@ -359,8 +352,27 @@ public final class CallEdgesTest {
         Check.due("the next is not", x.deliver(0), 1);
     }
 
+    private static void aSpoiltRecordStaysSpoilt() {
+        Counted x = threeSent();
+        x.spoil(2);
+        Drive.ticks(x, 40);
+        x.drop(0);
+        x.deliver(0);
+        x.send(1, 40);
+        Check.due("when others went and came", x.deliver(0), 0);
+        Check.due("nothing is received", x.received(1), 0);
+        Check.due("the one that came is not spoilt", x.deliver(0), 1);
+        x = new Counted(3, 8);
+        x.start();
+        x.spoil(0);
+        Drive.ticks(x, 4);
+        Check.due("what is sent again is not spoilt", x.deliver(1), 0);
+        Check.due("and answered", x.record(1), 1000001);
+        Check.due("but the first one is", x.deliver(0), 0);
+        Check.due("and not answered", x.waiting(), 1);
+    }
+
     private static void waitingGoesFrom0To60() {
-        Check.begin("How many records are in the net.");
         Counted x = Drive.through(3, 8);
         for (int count = 0; count <= 62; count++) {
             Check.due("after " + count, x.waiting(), Math.min(FULL, count));
@@ -373,7 +385,6 @@ public final class CallEdgesTest {
     }
 
     private static void aRefusedCopyIsNotLost() {
-        Check.begin("How many records were lost because 60 were there (a copy that is refused is none).");
         Counted x = threeSent();
         Drive.copyUntil(x, 0, FULL);
         x.copy(0);
@@ -393,7 +404,6 @@ public final class CallEdgesTest {
     }
 
     private static void recordIsBadForNoRecord() {
-        Check.begin("record: BAD if there is none such.");
         Counted x = threeSent();
         for (int i : noRecords(3)) {
             Check.due("record " + i, x.record(i), BAD);
@@ -404,7 +414,6 @@ public final class CallEdgesTest {
     }
 
     private static void contentIsBadForNoRecord() {
-        Check.begin("content: BAD if there is none such.");
         Counted x = threeSent();
         for (int i : noRecords(3)) {
             Check.due("record " + i, x.content(i), BAD);
@@ -414,8 +423,23 @@ public final class CallEdgesTest {
         Check.due("none is left", x.content(0), BAD);
     }
 
+    private static void contentOfWhatIsNoFragment() {
+        Counted x = Drive.through(3, 8);
+        int[] values = {Integer.MIN_VALUE, -1, 1, 10004, Integer.MAX_VALUE};
+        for (int i = 0; i < values.length; i++) {
+            x.send(i % 2, values[i]);
+            Check.due("DATA " + values[i], x.content(i), 0);
+        }
+        x = Drive.clientDoneSent(3, 8);
+        x.deliver(0);
+        Check.due("an ACK of one", x.content(0), 1);
+        Drive.ticks(x, 4);
+        x.deliver(1);
+        Check.due("the ACK that was sent stays", x.content(0), 1);
+        Check.due("an ACK of two", x.content(1), 2);
+    }
+
     private static void byteOfIsBadForNoRecord() {
-        Check.begin("BAD if record i is none");
         Counted x = Drive.flightSent(31, 8);
         for (int i : noRecords(9)) {
             Check.due("record " + i, x.byteOf(i, 0), BAD);
@@ -426,7 +450,6 @@ public final class CallEdgesTest {
     }
 
     private static void byteOfIsBadForNoByte() {
-        Check.begin("BAD if record i .. has no such byte");
         Counted x = Drive.flightSent(31, 24);
         int[] lengths = {4, 6, 24, 19, 4};
         for (int i = 0; i < lengths.length; i++) {
@@ -439,7 +462,6 @@ public final class CallEdgesTest {
     }
 
     private static void byteOfIsBadForNoFragment() {
-        Check.begin("Byte k of a fragment (0 .. 255); BAD if record i .. has no such byte (an ACK, DATA)");
         Counted x = Drive.flightSent(31, 8);
         x.deliver(0);
         Drive.ticks(x, 2);
@@ -456,7 +478,6 @@ public final class CallEdgesTest {
     }
 
     private static void byteOfGoesUpTo255() {
-        Check.begin("Byte k of a fragment (0 .. 255)");
         boolean[] seen = new boolean[256];
         for (int seed = -40; seed < 40; seed++) {
             Counted x = Drive.flightSent(seed, 24);
@@ -472,7 +493,6 @@ public final class CallEdgesTest {
     }
 
     private static void stateIsBadForNoSide() {
-        Check.begin("state: BAD if there is no such side.");
         for (int side : NO_SIDES) {
             Check.due("side " + side, threeSent().state(side), BAD);
             Check.due("side " + side + ", new", new Counted(0, 24).state(side), BAD);
@@ -480,7 +500,6 @@ public final class CallEdgesTest {
     }
 
     private static void transcriptIs0ForNoSide() {
-        Check.begin("transcript: 0 if there is no such side.");
         for (int side : NO_SIDES) {
             Check.due("side " + side, threeSent().transcript(side), 0);
         }
@@ -488,7 +507,6 @@ public final class CallEdgesTest {
     }
 
     private static void openIsBadForNoSide() {
-        Check.begin("open: BAD if there is no such side.");
         for (int side : NO_SIDES) {
             Check.due("side " + side, threeSent().open(side), BAD);
             Check.due("side " + side + ", in a flight", Drive.flightSent(31, 8).open(side), BAD);
@@ -496,14 +514,12 @@ public final class CallEdgesTest {
     }
 
     private static void keptIsBadForNoSide() {
-        Check.begin("kept: BAD if there is no such side.");
         for (int side : NO_SIDES) {
             Check.due("side " + side, threeSent().kept(side), BAD);
         }
     }
 
     private static void theServerKeepsNothing() {
-        Check.begin("How many bytes of messages that are not taken yet a side keeps (the server none)");
         Counted x = Drive.flightSent(31, 8);
         x.deliver(0);
         x.deliver(1);
@@ -516,14 +532,12 @@ public final class CallEdgesTest {
     }
 
     private static void receivedIsBadForNoSide() {
-        Check.begin("received: BAD if there is no such side.");
         for (int side : NO_SIDES) {
             Check.due("side " + side, threeSent().received(side), BAD);
         }
     }
 
     private static void valueIs0ForNoneSuch() {
-        Check.begin("Value i that a side received; 0 if there is none such.");
         Counted x = threeSent();
         Drive.deliverAll(x);
         for (int side : NO_SIDES) {
@@ -538,6 +552,21 @@ public final class CallEdgesTest {
         Check.due("the server's first", x.value(1, 0), 10);
         Check.due("the server's last", x.value(1, 1), 30);
         Check.due("the client's", x.value(0, 0), 20);
+    }
+
+    private static void anyIntIsData() {
+        int[] values = {Integer.MIN_VALUE, Integer.MIN_VALUE + 1, -65536, -1, 0, 1, 255, 256, Integer.MAX_VALUE};
+        for (int side = 0; side < 2; side++) {
+            Counted x = Drive.through(3, 8);
+            for (int i = 0; i < values.length; i++) {
+                Check.yes("send " + values[i], x.send(1 - side, values[i]));
+                x.copy(0);
+                x.drop(0);
+                Check.due("deliver " + values[i], x.deliver(0), 1);
+                Check.due("received", x.received(side), i + 1);
+                Check.due("value", x.value(side, i), values[i]);
+            }
+        }
     }
 
     private static void lookAtAll(Counted x) {
@@ -557,7 +586,6 @@ public final class CallEdgesTest {
     }
 
     private static void looksChangeNothing() {
-        Check.begin("Nothing is promised beyond the answers and state changes described above (so looking changes none)");
         for (int state = 1; state <= 4; state++) {
             Counted x = clientInState(state);
             lookAtAll(x);
@@ -567,7 +595,6 @@ public final class CallEdgesTest {
     }
 
     private static void theLastCallIsAnswered() {
-        Check.begin("An object is used for at most 512 calls after it has been made");
         Counted x = Drive.through(0, 24);
         int sent = 0;
         while (x.callsLeft() > 5) {

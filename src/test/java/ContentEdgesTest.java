@@ -8,20 +8,25 @@ public final class ContentEdgesTest {
         Integer.MAX_VALUE, Integer.MAX_VALUE - 1, Integer.MIN_VALUE, Integer.MIN_VALUE + 1};
 
     public static void main(String[] args) {
-        theMixWraps();
-        theShiftGoesFirst();
-        theLowestByteIsFirst();
-        helloEndsWithFourZeros();
-        retryHoldsTheCookie();
-        helloAgainRepeatsTheRetry();
-        answerStandsOnTheSecretAndOne();
-        termsAreSixBytes();
-        proofIsAsLongAsTheSeedSays();
-        proofHoldsOnlyBytes();
-        theTranscriptIsZeroAtFirst();
-        theTranscriptWraps();
-        aDoneIsWorkedOutBeforeItCounts();
-        theServerKeepsNothingOfAHello();
+        Check.part("MIX(a, b) is .. as ints wrap", ContentEdgesTest::theMixWraps);
+        Check.part("(>>> goes before ^.)", ContentEdgesTest::theShiftGoesFirst);
+        Check.part("The BYTES of an int are four, the lowest first.", ContentEdgesTest::theLowestByteIsFirst);
+        Check.part("HELLO: the bytes of R and four 0.", ContentEdgesTest::helloEndsWithFourZeros);
+        Check.part("RETRY: those of the COOKIE, MIX(S, the number in the first four bytes of the HELLO).",
+                ContentEdgesTest::retryHoldsTheCookie);
+        Check.part("HELLO AGAIN: the bytes of R and the four bytes of the RETRY.",
+                ContentEdgesTest::helloAgainRepeatsTheRetry);
+        Check.part("ANSWER: the bytes of MIX(S + 1, that number).", ContentEdgesTest::answerStandsOnTheSecretAndOne);
+        Check.part("TERMS: six bytes, byte i being MIX(that number, i) & 255.", ContentEdgesTest::termsAreSixBytes);
+        Check.part("PROOF: 12 + (seed & 31) bytes", ContentEdgesTest::proofIsAsLongAsTheSeedSays);
+        Check.part("PROOF: .. byte i being MIX(S + 2, i) & 255.", ContentEdgesTest::proofHoldsOnlyBytes);
+        Check.part("THE TRANSCRIPT of a side is an int, 0 at first", ContentEdgesTest::theTranscriptIsZeroAtFirst);
+        Check.part("makes it t * 31 + b + 1 for each byte b of the content in turn",
+                ContentEdgesTest::theTranscriptWraps);
+        Check.part("(for a DONE that is sent, after its content was worked out)",
+                ContentEdgesTest::aDoneIsWorkedOutBeforeItCounts);
+        Check.part("The server, which keeps nothing of a HELLO, works out the first three of them when it takes the "
+                + "HELLO AGAIN.", ContentEdgesTest::theServerKeepsNothingOfAHello);
         Check.end();
     }
 
@@ -62,7 +67,6 @@ public final class ContentEdgesTest {
     }
 
     private static void theMixWraps() {
-        Check.begin("MIX(a, b) is .. as ints wrap");
         for (int seed : NUMBERS) {
             holdsInt("R of seed " + seed, started(seed), 0, 0, mix(seed, 1));
         }
@@ -74,7 +78,6 @@ public final class ContentEdgesTest {
     }
 
     private static void theShiftGoesFirst() {
-        Check.begin("(>>> goes before ^.)");
         for (int b = 0; b < 32; b++) {
             int number = 1 << b;
             holdsInt("R of one bit " + b, started(seedFor(number, 1)), 0, 0, number);
@@ -83,7 +86,6 @@ public final class ContentEdgesTest {
     }
 
     private static void theLowestByteIsFirst() {
-        Check.begin("The BYTES of an int are four, the lowest first.");
         Counted x = started(seedFor(0x81ff7f01, 1));
         Check.due("first", x.byteOf(0, 0), 0x01);
         Check.due("second", x.byteOf(0, 1), 0x7f);
@@ -92,7 +94,6 @@ public final class ContentEdgesTest {
     }
 
     private static void helloEndsWithFourZeros() {
-        Check.begin("HELLO: the bytes of R and four 0.");
         for (int r : NUMBERS) {
             Counted x = started(seedFor(r, 1));
             Check.due("content", x.content(0), 8);
@@ -101,7 +102,6 @@ public final class ContentEdgesTest {
     }
 
     private static void retryHoldsTheCookie() {
-        Check.begin("RETRY: those of the COOKIE, MIX(S, the number in the first four bytes of the HELLO).");
         for (int s : NUMBERS) {
             int seed = seedFor(s, 2);
             Counted x = retrySent(seed);
@@ -115,7 +115,6 @@ public final class ContentEdgesTest {
     }
 
     private static void helloAgainRepeatsTheRetry() {
-        Check.begin("HELLO AGAIN: the bytes of R and the four bytes of the RETRY.");
         for (int r : NUMBERS) {
             int seed = seedFor(r, 1);
             Counted x = Drive.helloAgainSent(seed, 8);
@@ -126,7 +125,6 @@ public final class ContentEdgesTest {
     }
 
     private static void answerStandsOnTheSecretAndOne() {
-        Check.begin("ANSWER: the bytes of MIX(S + 1, that number).");
         for (int s : NUMBERS) {
             int seed = seedFor(s, 2);
             Counted x = Drive.flightSent(seed, 8);
@@ -136,7 +134,6 @@ public final class ContentEdgesTest {
     }
 
     private static void termsAreSixBytes() {
-        Check.begin("TERMS: six bytes, byte i being MIX(that number, i) & 255.");
         for (int r : NUMBERS) {
             Counted x = Drive.flightSent(seedFor(r, 1), 8);
             Check.due("content", x.content(1), 20006);
@@ -148,7 +145,6 @@ public final class ContentEdgesTest {
     }
 
     private static void proofIsAsLongAsTheSeedSays() {
-        Check.begin("PROOF: 12 + (seed & 31) bytes");
         int[][] due = {{0, 12}, {1, 13}, {11, 23}, {12, 24}, {13, 25}, {30, 42}, {31, 43}, {32, 12}, {33, 13}, {63, 43},
             {64, 12}, {-1, 43}, {-2, 42}, {-31, 13}, {-32, 12}, {-33, 43}, {Integer.MAX_VALUE, 43},
             {Integer.MIN_VALUE, 12}, {Integer.MIN_VALUE + 1, 13}};
@@ -163,7 +159,6 @@ public final class ContentEdgesTest {
     }
 
     private static void proofHoldsOnlyBytes() {
-        Check.begin("PROOF: .. byte i being MIX(S + 2, i) & 255.");
         for (int s : NUMBERS) {
             int seed = seedFor(s, 2);
             Counted x = Drive.flightSent(seed, 24);
@@ -174,7 +169,6 @@ public final class ContentEdgesTest {
     }
 
     private static void theTranscriptIsZeroAtFirst() {
-        Check.begin("THE TRANSCRIPT of a side is an int, 0 at first");
         for (int seed : NUMBERS) {
             Counted x = new Counted(seed, 8);
             Check.due("the client's", x.transcript(0), 0);
@@ -192,7 +186,6 @@ public final class ContentEdgesTest {
     }
 
     private static void theTranscriptWraps() {
-        Check.begin("makes it t * 31 + b + 1 for each byte b of the content in turn");
         for (int r : NUMBERS) {
             Counted x = started(seedFor(r, 1));
             int t = heard(0, x, 0, 8);
@@ -213,7 +206,6 @@ public final class ContentEdgesTest {
     }
 
     private static void aDoneIsWorkedOutBeforeItCounts() {
-        Check.begin("(for a DONE that is sent, after its content was worked out)");
         for (int seed : NUMBERS) {
             Counted x = Drive.flightSent(seed, 24);
             int pieces = x.waiting();
@@ -231,8 +223,6 @@ public final class ContentEdgesTest {
     }
 
     private static void theServerKeepsNothingOfAHello() {
-        Check.begin("The server, which keeps nothing of a HELLO, works out the first three of them when it takes the "
-                + "HELLO AGAIN.");
         for (int seed : NUMBERS) {
             Contents c = new Contents(seed);
             Counted x = started(seed);

@@ -7,37 +7,65 @@ public final class DeliverEdgesTest {
     private static final int[] WAITS = {4, 8, 16, 32, 32, 32};
 
     public static void main(String[] args) {
-        aSpoiltRecordChangesNothing();
-        aFailedClientLetsNothingIn();
-        aFailedServerLetsNothingIn();
-        anEpochThatIsNotReadChangesNothing();
-        anOldRecordChangesNothing();
-        theNewServerLetsInAHelloAgainAlone();
-        aHelloIsAnsweredInAnyState();
-        nothingOfAHelloIsKept();
-        aHelloAgainIsTakenInState0();
-        aHelloAgainHasNoEffectLater();
-        aRetryIsTakenInState1();
-        aRetryHasNoEffectLater();
-        theFirstFragmentAnswersTheHelloAgain();
-        bytesComeInAnyOrder();
-        bytesThatAreThereAlreadyCountOnce();
-        whatIsWholeIsTakenInOrder();
-        theDoneIsAnswered();
-        anAckIsDueTwoTicksLater();
-        aDueAckIsPutOff();
-        aPieceOfATakenMessageIsNoted();
-        fragmentsHaveNoEffectLater();
-        theClientsDoneIsTakenInState1();
-        theClientsDoneIsAcknowledgedInState2();
-        anAckClosesWhatWasSentInNamedRecords();
-        anAckOfAnySendingCloses();
-        anAckThatClosesNothing();
-        theLastFragmentIsClosed();
-        acksHaveNoEffectLater();
-        sixtyValuesAreKept();
-        anAckNamesAllThatWasNoted();
-        anAckNamesTheLatestEight();
+        Check.part("It is thrown away, changing nothing more, if it is spoilt",
+                DeliverEdgesTest::aSpoiltRecordChangesNothing);
+        Check.part("It is thrown away, changing nothing more, if .. the side has failed (the client)",
+                DeliverEdgesTest::aFailedClientLetsNothingIn);
+        Check.part("It is thrown away, changing nothing more, if .. the side has failed (the server)",
+                DeliverEdgesTest::aFailedServerLetsNothingIn);
+        Check.part("It is thrown away, changing nothing more, if .. it does not read the epoch",
+                DeliverEdgesTest::anEpochThatIsNotReadChangesNothing);
+        Check.part("It is thrown away, changing nothing more, if .. it is old",
+                DeliverEdgesTest::anOldRecordChangesNothing);
+        Check.part("(but the server in state 0 lets nothing in but a HELLO AGAIN)",
+                DeliverEdgesTest::theNewServerLetsInAHelloAgainAlone);
+        Check.part("A HELLO at the server, in any state: RETRY is sent", DeliverEdgesTest::aHelloIsAnsweredInAnyState);
+        Check.part("RETRY is sent; nothing of it is kept.", DeliverEdgesTest::nothingOfAHelloIsKept);
+        Check.part("A HELLO AGAIN at the server in state 0 ..: it is taken, the flight is sent, the side cares for "
+                + "it: state 1.", DeliverEdgesTest::aHelloAgainIsTakenInState0);
+        Check.part("Whatever else is let in has no effect. (a HELLO AGAIN in state 1 and 2)",
+                DeliverEdgesTest::aHelloAgainHasNoEffectLater);
+        Check.part("A RETRY in the client's state 1: it is taken; HELLO AGAIN is sent, it cares for that flight in "
+                + "place of the other: state 2.", DeliverEdgesTest::aRetryIsTakenInState1);
+        Check.part("Whatever else is let in has no effect. (a RETRY in the client's state 2, 3 and 4)",
+                DeliverEdgesTest::aRetryHasNoEffectLater);
+        Check.part("A fragment .. in the client's state 2: the client cares for its HELLO AGAIN no more (it is "
+                + "answered)", DeliverEdgesTest::theFirstFragmentAnswersTheHelloAgain);
+        Check.part("its bytes are put to those of its message that are there already",
+                DeliverEdgesTest::bytesComeInAnyOrder);
+        Check.part("its bytes are put to those of its message that are there already (the same bytes once more)",
+                DeliverEdgesTest::bytesThatAreThereAlreadyCountOnce);
+        Check.part("Then, as long as the next message of the flight that is not taken is whole, it is taken.",
+                DeliverEdgesTest::whatIsWholeIsTakenInOrder);
+        Check.part("When the DONE is taken .., the client's DONE is sent, it cares for that in place of the other: "
+                + "state 3.", DeliverEdgesTest::theDoneIsAnswered);
+        Check.part("If the flight is not whole, an ACK is due 2 ticks later",
+                DeliverEdgesTest::anAckIsDueTwoTicksLater);
+        Check.part("an ACK is due 2 ticks later (in place of one that is due)", DeliverEdgesTest::aDueAckIsPutOff);
+        Check.part("its record is NOTED (that of a message which is taken, too)",
+                DeliverEdgesTest::aPieceOfATakenMessageIsNoted);
+        Check.part("Whatever else is let in has no effect. (fragments in the client's state 3 and 4)",
+                DeliverEdgesTest::fragmentsHaveNoEffectLater);
+        Check.part("The client's DONE at the server in state 1: it is taken; its record is noted; the server cares "
+                + "for nothing any more: state 2; and an ACK is sent.",
+                DeliverEdgesTest::theClientsDoneIsTakenInState1);
+        Check.part("In state 2: its record is noted, and an ACK is sent.",
+                DeliverEdgesTest::theClientsDoneIsAcknowledgedInState2);
+        Check.part("An ACK: each open fragment .., that was sent in a record that is named, is open no more.",
+                DeliverEdgesTest::anAckClosesWhatWasSentInNamedRecords);
+        Check.part("each open fragment .., that was sent in a record that is named (each time that it was sent)",
+                DeliverEdgesTest::anAckOfAnySendingCloses);
+        Check.part("An ACK: each open fragment of the flight .. is open no more. (one that names none)",
+                DeliverEdgesTest::anAckThatClosesNothing);
+        Check.part("If that closes the last one: the client in state 3 has state 4.",
+                DeliverEdgesTest::theLastFragmentIsClosed);
+        Check.part("Whatever else is let in has no effect. (an ACK at a side that cares for nothing)",
+                DeliverEdgesTest::acksHaveNoEffectLater);
+        Check.part("DATA: the value is put to those that the side received (60 at most; more are not kept).",
+                DeliverEdgesTest::sixtyValuesAreKept);
+        Check.part("An ACK that is sent names the records that this side noted so far",
+                DeliverEdgesTest::anAckNamesAllThatWasNoted);
+        Check.part("the latest first, 8 at most", DeliverEdgesTest::anAckNamesTheLatestEight);
         Check.end();
     }
 
@@ -105,7 +133,6 @@ public final class DeliverEdgesTest {
     }
 
     private static void aSpoiltRecordChangesNothing() {
-        Check.begin("It is thrown away, changing nothing more, if it is spoilt");
         spoiltIsThrownAway("HELLO", 0, started(), started());
         spoiltIsThrownAway("RETRY", 0, retrySent(), retrySent());
         spoiltIsThrownAway("HELLO AGAIN", 0, helloAgainSent(), helloAgainSent());
@@ -124,7 +151,6 @@ public final class DeliverEdgesTest {
     }
 
     private static void aFailedClientLetsNothingIn() {
-        Check.begin("It is thrown away, changing nothing more, if .. the side has failed (the client)");
         isThrownAway("RETRY", 0, untilItFails(retrySent()), untilItFails(retrySent()));
         isThrownAway("ANSWER", 0, untilItFails(flightSent()), untilItFails(flightSent()));
         isThrownAway("an ACK", 0, untilItFails(serverAckSent()), untilItFails(serverAckSent()));
@@ -157,7 +183,6 @@ public final class DeliverEdgesTest {
     }
 
     private static void aFailedServerLetsNothingIn() {
-        Check.begin("It is thrown away, changing nothing more, if .. the side has failed (the server)");
         Counted x = serverFailed();
         Check.due("failed", x.state(1), FAILED);
         Check.due("HELLO", x.content(0), 8);
@@ -176,7 +201,6 @@ public final class DeliverEdgesTest {
     }
 
     private static void anEpochThatIsNotReadChangesNothing() {
-        Check.begin("It is thrown away, changing nothing more, if .. it does not read the epoch");
         for (int i = 1; i < 4; i++) {
             isThrownAway("piece " + i + " before ANSWER", i, flightSent(), flightSent());
         }
@@ -187,29 +211,31 @@ public final class DeliverEdgesTest {
         isThrownAway("DATA before DONE", 1, one, other);
     }
 
-    private static void oldIsThrownAway(String what, Counted one, Counted other) {
-        int placeOfCopy = one.waiting();
-        one.copy(0);
-        other.copy(0);
-        Check.due(what, one.deliver(0), 1);
-        Check.due(what, other.deliver(0), 1);
-        isThrownAway(what + " once more", placeOfCopy - 1, one, other);
+    /** Record 0 is delivered, so many ticks go by, and then its copy is delivered too. */
+    private static void oldIsThrownAway(String what, int ticks, Counted one, Counted other) {
+        int placeOfCopy = one.waiting() - 1;
+        for (Counted x : new Counted[] {one, other}) {
+            x.copy(0);
+            Check.due(what, x.deliver(0), 1);
+            Drive.ticks(x, ticks);
+        }
+        isThrownAway(what + " once more, after " + ticks, placeOfCopy, one, other);
     }
 
     private static void anOldRecordChangesNothing() {
-        Check.begin("It is thrown away, changing nothing more, if .. it is old");
-        oldIsThrownAway("RETRY", retrySent(), retrySent());
-        oldIsThrownAway("HELLO AGAIN", helloAgainSent(), helloAgainSent());
-        oldIsThrownAway("ANSWER", flightSent(), flightSent());
-        oldIsThrownAway("TERMS", clientAckSent(), clientAckSent());
-        oldIsThrownAway("the client's DONE", clientDoneSent(), clientDoneSent());
-        oldIsThrownAway("the server's ACK", serverAckSent(), serverAckSent());
-        oldIsThrownAway("DATA of the client", dataSent(0), dataSent(0));
-        oldIsThrownAway("DATA of the server", dataSent(1), dataSent(1));
+        for (int ticks = 0; ticks < 4; ticks++) {
+            oldIsThrownAway("RETRY", ticks, retrySent(), retrySent());
+            oldIsThrownAway("HELLO AGAIN", ticks, helloAgainSent(), helloAgainSent());
+            oldIsThrownAway("ANSWER", ticks, flightSent(), flightSent());
+            oldIsThrownAway("TERMS", ticks, clientAckSent(), clientAckSent());
+            oldIsThrownAway("the client's DONE", ticks, clientDoneSent(), clientDoneSent());
+            oldIsThrownAway("the server's ACK", ticks, serverAckSent(), serverAckSent());
+            oldIsThrownAway("DATA of the client", ticks, dataSent(0), dataSent(0));
+            oldIsThrownAway("DATA of the server", ticks, dataSent(1), dataSent(1));
+        }
     }
 
     private static void theNewServerLetsInAHelloAgainAlone() {
-        Check.begin("(but the server in state 0 lets nothing in but a HELLO AGAIN)");
         Counted x = started();
         x.copy(0);
         Check.due("HELLO", x.deliver(0), 0);
@@ -239,7 +265,6 @@ public final class DeliverEdgesTest {
     }
 
     private static void aHelloIsAnsweredInAnyState() {
-        Check.begin("A HELLO at the server, in any state: RETRY is sent");
         Counted x = helloLeft();
         Check.due("state 1", x.state(1), 1);
         Check.due("is let in", x.deliver(0), 1);
@@ -255,7 +280,6 @@ public final class DeliverEdgesTest {
     }
 
     private static void nothingOfAHelloIsKept() {
-        Check.begin("RETRY is sent; nothing of it is kept.");
         Counted[][] pairs = {{started(), started()}, {helloLeft(), helloLeft()},
             {helloLeftInState2(), helloLeftInState2()}};
         for (Counted[] pair : pairs) {
@@ -267,8 +291,6 @@ public final class DeliverEdgesTest {
     }
 
     private static void aHelloAgainIsTakenInState0() {
-        Check.begin("A HELLO AGAIN at the server in state 0 ..: it is taken, the flight is sent, the side cares for it: "
-                + "state 1.");
         Counted x = helloAgainSent();
         Check.due("before", x.state(1) + x.open(1), 0);
         Check.due("it is let in", x.deliver(0), 1);
@@ -295,7 +317,6 @@ public final class DeliverEdgesTest {
     }
 
     private static void aHelloAgainHasNoEffectLater() {
-        Check.begin("Whatever else is let in has no effect. (a HELLO AGAIN in state 1 and 2)");
         for (int i = 0; i < 2; i++) {
             hasNoEffect("state 1, record " + i, i, helloAgainsLeft(), helloAgainsLeft());
             Counted x = helloAgainsLeftInState2();
@@ -305,8 +326,6 @@ public final class DeliverEdgesTest {
     }
 
     private static void aRetryIsTakenInState1() {
-        Check.begin("A RETRY in the client's state 1: it is taken; HELLO AGAIN is sent, it cares for that flight in place "
-                + "of the other: state 2.");
         Counted x = retrySent();
         Check.due("before", x.state(0), 1);
         Check.due("it is let in", x.deliver(0), 1);
@@ -332,7 +351,6 @@ public final class DeliverEdgesTest {
     }
 
     private static void aRetryHasNoEffectLater() {
-        Check.begin("Whatever else is let in has no effect. (a RETRY in the client's state 2, 3 and 4)");
         for (int state = 2; state <= 4; state++) {
             Counted x = retryLeft(state);
             Check.due("state", x.state(0), state);
@@ -341,7 +359,6 @@ public final class DeliverEdgesTest {
     }
 
     private static void theFirstFragmentAnswersTheHelloAgain() {
-        Check.begin("A fragment .. in the client's state 2: the client cares for its HELLO AGAIN no more (it is answered)");
         Counted x = flightSent();
         x.deliver(2);
         Check.due("one that is thrown away does not answer", x.open(0), 1);
@@ -354,7 +371,6 @@ public final class DeliverEdgesTest {
     }
 
     private static void bytesComeInAnyOrder() {
-        Check.begin("its bytes are put to those of its message that are there already");
         int[] lengths = {8, 8, 8, 8, 8, 3};
         for (int order = 0; order < 720; order++) {
             Counted x = Drive.flightSent(31, 8);
@@ -377,7 +393,6 @@ public final class DeliverEdgesTest {
     }
 
     private static void bytesThatAreThereAlreadyCountOnce() {
-        Check.begin("its bytes are put to those of its message that are there already (the same bytes once more)");
         Counted x = Drive.flightSent(31, 8);
         Drive.ticks(x, 4);
         x.deliver(0);
@@ -393,7 +408,6 @@ public final class DeliverEdgesTest {
     }
 
     private static void whatIsWholeIsTakenInOrder() {
-        Check.begin("Then, as long as the next message of the flight that is not taken is whole, it is taken.");
         Contents c = new Contents(0);
         Counted x = flightSent();
         x.deliver(0);
@@ -421,7 +435,6 @@ public final class DeliverEdgesTest {
     }
 
     private static void theDoneIsAnswered() {
-        Check.begin("When the DONE is taken .., the client's DONE is sent, it cares for that in place of the other: state 3.");
         Counted x = flightSent();
         for (int i = 0; i < 3; i++) {
             x.deliver(0);
@@ -437,7 +450,6 @@ public final class DeliverEdgesTest {
     }
 
     private static void anAckIsDueTwoTicksLater() {
-        Check.begin("If the flight is not whole, an ACK is due 2 ticks later");
         for (int before = 0; before < 4; before++) {
             Counted x = Drive.flightSent(31, 8);
             Drive.dropAllBehind(x, 1);
@@ -453,7 +465,6 @@ public final class DeliverEdgesTest {
     }
 
     private static void aDueAckIsPutOff() {
-        Check.begin("an ACK is due 2 ticks later (in place of one that is due)");
         Counted x = Drive.flightSent(31, 24);
         Drive.ticks(x, 4);
         Drive.dropAllBehind(x, 4);
@@ -467,7 +478,6 @@ public final class DeliverEdgesTest {
     }
 
     private static void aPieceOfATakenMessageIsNoted() {
-        Check.begin("its record is NOTED (that of a message which is taken, too)");
         Counted x = flightSent();
         Drive.ticks(x, 4);
         x.deliver(0);
@@ -498,7 +508,6 @@ public final class DeliverEdgesTest {
     }
 
     private static void fragmentsHaveNoEffectLater() {
-        Check.begin("Whatever else is let in has no effect. (fragments in the client's state 3 and 4)");
         for (int state = 3; state <= 4; state++) {
             for (int i = 0; i < 4; i++) {
                 Counted x = piecesLeft(state);
@@ -509,8 +518,6 @@ public final class DeliverEdgesTest {
     }
 
     private static void theClientsDoneIsTakenInState1() {
-        Check.begin("The client's DONE at the server in state 1: it is taken; its record is noted; the server cares for "
-                + "nothing any more: state 2; and an ACK is sent.");
         Counted x = clientDoneSent();
         Check.due("before", x.open(1), 4);
         Check.due("it is let in", x.deliver(0), 1);
@@ -524,7 +531,6 @@ public final class DeliverEdgesTest {
     }
 
     private static void theClientsDoneIsAcknowledgedInState2() {
-        Check.begin("In state 2: its record is noted, and an ACK is sent.");
         Counted x = clientDoneSent();
         int transcript = 0;
         for (int time = 1; time <= 7; time++) {
@@ -544,11 +550,11 @@ public final class DeliverEdgesTest {
     }
 
     private static void anAckClosesWhatWasSentInNamedRecords() {
-        Check.begin("An ACK: each open fragment .., that was sent in a record that is named, is open no more.");
         int[][] orders = {{0}, {0, 0}, {0, 1}, {0, 7}, {0, 6, 6}, {0, 7, 6}, {0, 0, 0, 0, 0, 0, 0, 0}};
         for (int[] order : orders) {
             Counted x = Drive.flightSent(31, 8);
-            List<Integer> left = new ArrayList<>(List.of(10004, 20006, 30008, 30808, 31608, 32408, 33208, 34003, 40004));
+            List<Integer> left = new ArrayList<>(
+                    List.of(10004, 20006, 30008, 30808, 31608, 32408, 33208, 34003, 40004));
             for (int place : order) {
                 x.deliver(place);
                 left.remove(place);
@@ -565,22 +571,27 @@ public final class DeliverEdgesTest {
     }
 
     private static void anAckOfAnySendingCloses() {
-        Check.begin("each open fragment .., that was sent in a record that is named (each time that it was sent)");
         for (int time = 0; time < 7; time++) {
             Counted x = clientDoneSent();
-            for (int i = 0; i < 6; i++) {
-                Drive.ticks(x, WAITS[i]);
-            }
-            int place = 0;
-            for (int i = 0; i < time; i++) {
-                place += i == 0 ? 1 : 5;
-            }
+            Drive.ticks(x, 124);
+            int place = time == 0 ? 0 : 5 * time - 4;
             Check.due("DONE", x.record(place), 20000 + time);
             x.deliver(place);
             Check.due("the server's ACK names it alone", x.content(x.waiting() - 1), 1);
             x.deliver(x.waiting() - 1);
             Check.due("time " + time + " is acknowledged", x.state(0), 4);
             Check.due("open", x.open(0), 0);
+        }
+        for (int time = 0; time < 7; time++) {
+            Counted x = flightSent();
+            Drive.ticks(x, 124);
+            int place = 5 * time;
+            Check.due("ANSWER", x.record(place), 1000001 + time);
+            x.deliver(place);
+            Drive.ticks(x, 2);
+            Check.due("the client's ACK names it alone", x.content(x.waiting() - 1), 1);
+            x.deliver(x.waiting() - 1);
+            Check.due("time " + time + " is acknowledged, nothing else is", x.open(1), 3);
         }
     }
 
@@ -596,7 +607,6 @@ public final class DeliverEdgesTest {
     }
 
     private static void anAckThatClosesNothing() {
-        Check.begin("An ACK: each open fragment of the flight .. is open no more. (one that names none)");
         Counted x = twoAcksSent();
         Check.due("open", x.open(1), 2);
         Check.due("ACK 0", x.record(0), 120000);
@@ -604,7 +614,6 @@ public final class DeliverEdgesTest {
     }
 
     private static void theLastFragmentIsClosed() {
-        Check.begin("If that closes the last one: the client in state 3 has state 4.");
         Counted x = serverAckSent();
         Check.due("before", x.state(0), 3);
         Check.due("open", x.open(0), 1);
@@ -640,7 +649,6 @@ public final class DeliverEdgesTest {
     }
 
     private static void acksHaveNoEffectLater() {
-        Check.begin("Whatever else is let in has no effect. (an ACK at a side that cares for nothing)");
         Counted x = firstAckLeft();
         Check.due("state 4", x.state(0), 4);
         hasNoEffect("the client", 4, x, firstAckLeft());
@@ -650,7 +658,6 @@ public final class DeliverEdgesTest {
     }
 
     private static void sixtyValuesAreKept() {
-        Check.begin("DATA: the value is put to those that the side received (60 at most; more are not kept).");
         for (int side = 0; side < 2; side++) {
             Counted x = Drive.through(0, 24);
             for (int i = 0; i < 59; i++) {
@@ -671,7 +678,6 @@ public final class DeliverEdgesTest {
     }
 
     private static void anAckNamesAllThatWasNoted() {
-        Check.begin("An ACK that is sent names the records that this side noted so far");
         Counted x = Drive.flightSent(31, 8);
         for (int acks = 1; acks <= 3; acks++) {
             x.deliver(0);
@@ -685,7 +691,6 @@ public final class DeliverEdgesTest {
     }
 
     private static void anAckNamesTheLatestEight() {
-        Check.begin("the latest first, 8 at most");
         int[] open = {1, 2, 3, 3, 3};
         for (int more = 0; more < open.length; more++) {
             Counted x = Drive.flightSent(31, 8);

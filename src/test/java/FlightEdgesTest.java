@@ -3,27 +3,38 @@ public final class FlightEdgesTest {
     private static final int FAILED = 5;
 
     public static void main(String[] args) {
-        theLastPieceMayBeShorter();
-        aPieceHasTheBytesFromItsOffset();
-        shortMessagesAreWhole();
-        aFragmentIsOpenUntilItIsAcknowledged();
-        itWaitsFourTicksAtFirst();
-        itWaitsTwiceAsLongButThirtyTwoAtMost();
-        theSeventhTimeItFails();
-        whoFailedCaresForNothing();
-        theServerFailsAlone();
-        onlyOpenFragmentsAreSentAgain();
-        whatIsSentAgainGoesInNewRecords();
-        anAckDoesNotChangeTheWait();
-        nothingIsDoneWhenNothingIsOpen();
-        aRetryIsNoFlight();
-        theNextFlightComesInPlaceOfTheOther();
-        theNextFlightHasSixTimesOfItsOwn();
+        Check.part("cut into pieces of mtu bytes from its beginning on (the last one may be shorter)",
+                FlightEdgesTest::theLastPieceMayBeShorter);
+        Check.part("It holds a FRAGMENT (a message's number, an offset, some of its bytes)",
+                FlightEdgesTest::aPieceHasTheBytesFromItsOffset);
+        Check.part("(HELLO, RETRY, HELLO AGAIN, ANSWER, TERMS and both DONE are always whole in a record, as mtu is "
+                + "at least 8.)", FlightEdgesTest::shortMessagesAreWhole);
+        Check.part("a fragment of it is OPEN until it is acknowledged",
+                FlightEdgesTest::aFragmentIsOpenUntilItIsAcknowledged);
+        Check.part("When it begins to care for a flight it waits 4 ticks", FlightEdgesTest::itWaitsFourTicksAtFirst);
+        Check.part("waits twice as long as before, but 32 ticks at most",
+                FlightEdgesTest::itWaitsTwiceAsLongButThirtyTwoAtMost);
+        Check.part("when it would do so for the seventh time it does not, but FAILS instead",
+                FlightEdgesTest::theSeventhTimeItFails);
+        Check.part("FAILS instead: it cares for nothing any more", FlightEdgesTest::whoFailedCaresForNothing);
+        Check.part("A side has one flight at most that it CARES for (the other side's is none of its own)",
+                FlightEdgesTest::theServerFailsAlone);
+        Check.part("each time that it has waited it sends all open fragments again",
+                FlightEdgesTest::onlyOpenFragmentsAreSentAgain);
+        Check.part("sends all open fragments again (in new records)", FlightEdgesTest::whatIsSentAgainGoesInNewRecords);
+        Check.part("each time that it has waited (an ACK does not begin it anew)",
+                FlightEdgesTest::anAckDoesNotChangeTheWait);
+        Check.part("It does nothing of that when no fragment is open.",
+                FlightEdgesTest::nothingIsDoneWhenNothingIsOpen);
+        Check.part("RETRY is no flight.", FlightEdgesTest::aRetryIsNoFlight);
+        Check.part("it cares for that flight in place of the other",
+                FlightEdgesTest::theNextFlightComesInPlaceOfTheOther);
+        Check.part("When it begins to care for a flight it waits 4 ticks (whatever became of the one before)",
+                FlightEdgesTest::theNextFlightHasSixTimesOfItsOwn);
         Check.end();
     }
 
     private static void theLastPieceMayBeShorter() {
-        Check.begin("cut into pieces of mtu bytes from its beginning on (the last one may be shorter)");
         for (int mtu = 8; mtu <= 24; mtu++) {
             for (int more = 0; more <= 31; more++) {
                 int length = 12 + more;
@@ -42,7 +53,6 @@ public final class FlightEdgesTest {
     }
 
     private static void aPieceHasTheBytesFromItsOffset() {
-        Check.begin("It holds a FRAGMENT (a message's number, an offset, some of its bytes)");
         for (int mtu = 8; mtu <= 24; mtu++) {
             byte[] proof = new Contents(31).proof;
             Counted x = Drive.flightSent(31, mtu);
@@ -53,8 +63,6 @@ public final class FlightEdgesTest {
     }
 
     private static void shortMessagesAreWhole() {
-        Check.begin("(HELLO, RETRY, HELLO AGAIN, ANSWER, TERMS and both DONE are always whole in a record, as mtu is at "
-                + "least 8.)");
         for (int mtu : new int[] {Integer.MIN_VALUE, 0, 4, 6, 7, 8, 24}) {
             Counted x = new Counted(31, mtu);
             x.start();
@@ -74,7 +82,6 @@ public final class FlightEdgesTest {
     }
 
     private static void aFragmentIsOpenUntilItIsAcknowledged() {
-        Check.begin("a fragment of it is OPEN until it is acknowledged");
         Counted x = Drive.flightSent(31, 8);
         for (int pieces = 1; pieces <= 8; pieces++) {
             x.deliver(0);
@@ -110,7 +117,6 @@ public final class FlightEdgesTest {
     }
 
     private static void itWaitsFourTicksAtFirst() {
-        Check.begin("When it begins to care for a flight it waits 4 ticks");
         for (int kind = 0; kind < 3; kind++) {
             Counted x = flightOf(kind);
             Check.due("flight " + kind + ", three ticks", Drive.ticks(x, 3), 0);
@@ -130,7 +136,6 @@ public final class FlightEdgesTest {
     }
 
     private static void itWaitsTwiceAsLongButThirtyTwoAtMost() {
-        Check.begin("waits twice as long as before, but 32 ticks at most");
         int[] waits = {4, 8, 16, 32, 32, 32};
         for (int kind = 0; kind < 3; kind++) {
             Counted x = flightOf(kind);
@@ -149,7 +154,6 @@ public final class FlightEdgesTest {
     }
 
     private static void theSeventhTimeItFails() {
-        Check.begin("when it would do so for the seventh time it does not, but FAILS instead");
         for (int kind = 0; kind < 3; kind++) {
             Counted x = flightOf(kind);
             int state = x.state(0);
@@ -170,7 +174,6 @@ public final class FlightEdgesTest {
     }
 
     private static void whoFailedCaresForNothing() {
-        Check.begin("FAILS instead: it cares for nothing any more");
         for (int kind = 0; kind < 4; kind++) {
             int side = kind == 3 ? 1 : 0;
             Counted x = flightOf(kind);
@@ -184,7 +187,6 @@ public final class FlightEdgesTest {
     }
 
     private static void theServerFailsAlone() {
-        Check.begin("A side has one flight at most that it CARES for (the other side's is none of its own)");
         Counted x = flightOf(3);
         Drive.ticks(x, 154);
         Check.due("the server", x.state(1), FAILED);
@@ -205,7 +207,6 @@ public final class FlightEdgesTest {
     }
 
     private static void onlyOpenFragmentsAreSentAgain() {
-        Check.begin("each time that it has waited it sends all open fragments again");
         Counted x = Drive.flightSent(31, 8);
         x.deliver(0);
         x.deliver(1);
@@ -230,7 +231,6 @@ public final class FlightEdgesTest {
     }
 
     private static void whatIsSentAgainGoesInNewRecords() {
-        Check.begin("sends all open fragments again (in new records)");
         Counted x = Drive.flightSent(0, 8);
         Drive.ticks(x, 12);
         int[] due = {1000001, 1020000, 1020001, 1020002, 1020003, 2, 1000002, 1020004, 1020005, 1020006, 1020007,
@@ -249,7 +249,6 @@ public final class FlightEdgesTest {
     }
 
     private static void anAckDoesNotChangeTheWait() {
-        Check.begin("each time that it has waited (an ACK does not begin it anew)");
         Counted x = Drive.flightSent(31, 8);
         x.deliver(0);
         Drive.ticks(x, 2);
@@ -261,10 +260,22 @@ public final class FlightEdgesTest {
         x.deliver(x.waiting() - 1);
         Check.due("the eleventh", Drive.ticks(x, 5), 0);
         Check.due("the twelfth", x.tick(), 7);
+        Drive.dropAllBehind(x, 1);
+        Drive.ticks(x, 48);
+        x.deliver(0);
+        Check.due("an ACK after the sixtieth", Drive.ticks(x, 2), 1);
+        x.deliver(x.waiting() - 1);
+        Check.due("one less is open", x.open(1), 6);
+        Check.due("the ninety-first", Drive.ticks(x, 29), 0);
+        Check.due("the ninety-second", x.tick(), 6);
+        Check.due("the sixth time", Drive.ticks(x, 32), 6);
+        Check.due("before the end", Drive.ticks(x, 31), 0);
+        Check.due("not yet failed", x.state(1), 1);
+        x.tick();
+        Check.due("failed at its time", x.state(1), FAILED);
     }
 
     private static void nothingIsDoneWhenNothingIsOpen() {
-        Check.begin("It does nothing of that when no fragment is open.");
         Counted x = Drive.through(31, 8);
         Check.due("both through", Drive.ticks(x, 400), 0);
         Check.due("the client", x.state(0), 4);
@@ -280,7 +291,6 @@ public final class FlightEdgesTest {
     }
 
     private static void aRetryIsNoFlight() {
-        Check.begin("RETRY is no flight.");
         Counted x = new Counted(3, 8);
         x.start();
         x.deliver(0);
@@ -294,7 +304,6 @@ public final class FlightEdgesTest {
     }
 
     private static void theNextFlightComesInPlaceOfTheOther() {
-        Check.begin("it cares for that flight in place of the other");
         for (int ticks = 0; ticks < 4; ticks++) {
             Counted x = new Counted(0, 24);
             x.start();
@@ -319,7 +328,6 @@ public final class FlightEdgesTest {
     }
 
     private static void theNextFlightHasSixTimesOfItsOwn() {
-        Check.begin("When it begins to care for a flight it waits 4 ticks (whatever became of the one before)");
         Counted x = new Counted(0, 24);
         x.start();
         x.deliver(0);

@@ -4,31 +4,42 @@ public final class NetEdgesTest {
     private static final int FULL = 60;
 
     public static void main(String[] args) {
-        theNetIsEmptyAtFirst();
-        whatIsSentComesBehindAllOthers();
-        helloIsLost();
-        aRecordThatIsDeliveredLeavesRoom();
-        partOfAFlightIsLost();
-        partOfAFlightThatIsSentAgainIsLost();
-        anAckIsLost();
-        dataIsLost();
-        anAckHasEightNamesAtMost();
-        eachEpochIsNumberedFromZero();
-        nothingElseUsesANumber();
-        aRetryHasTheNumberOfItsHello();
-        theServerGoesOnFromTheHelloAgain();
-        eachMessageHasItsEpoch();
-        anAckGoesInTheGreatestEpoch();
-        theClientWritesThreeWithItsDone();
-        theClientReadsTwoWithTheAnswer();
-        theClientReadsOnInLesserEpochs();
-        theServerReadsThreeWithTheClientsDone();
-        theServerReadsOnInLesserEpochs();
+        Check.part("THE NET holds records, at first none", NetEdgesTest::theNetIsEmptyAtFirst);
+        Check.part("one that is sent comes behind all others", NetEdgesTest::whatIsSentComesBehindAllOthers);
+        Check.part("with 60 there it is LOST (a HELLO)", NetEdgesTest::helloIsLost);
+        Check.part("DELIVERING a record takes it out of the net (so what is sent then finds room)",
+                NetEdgesTest::aRecordThatIsDeliveredLeavesRoom);
+        Check.part("with 60 there it is LOST (of nine fragments those that find no room)",
+                NetEdgesTest::partOfAFlightIsLost);
+        Check.part("with 60 there it is LOST (of fragments that are sent again those that find no room)",
+                NetEdgesTest::partOfAFlightThatIsSentAgainIsLost);
+        Check.part("with 60 there it is LOST (an ACK)", NetEdgesTest::anAckIsLost);
+        Check.part("with 60 there it is LOST (DATA)", NetEdgesTest::dataIsLost);
+        Check.part("an ACK (up to 8 names of records, each an epoch and a number)",
+                NetEdgesTest::anAckHasEightNamesAtMost);
+        Check.part("Each side numbers its records in each epoch 0, 1, 2, ..",
+                NetEdgesTest::eachEpochIsNumberedFromZero);
+        Check.part("Each side numbers its records in each epoch 0, 1, 2, .. (copies and refused calls are none)",
+                NetEdgesTest::nothingElseUsesANumber);
+        Check.part("a RETRY has the number of the record with the HELLO that it answers",
+                NetEdgesTest::aRetryHasTheNumberOfItsHello);
+        Check.part("the server's other records in epoch 0 are numbered from the number of the record with the HELLO "
+                + "AGAIN that it took", NetEdgesTest::theServerGoesOnFromTheHelloAgain);
+        Check.part("HELLO, RETRY, HELLO AGAIN and ANSWER go in epoch 0, TERMS, PROOF and both DONE in epoch 2, DATA "
+                + "in epoch 3", NetEdgesTest::eachMessageHasItsEpoch);
+        Check.part("an ACK in the greatest epoch that its side WRITES", NetEdgesTest::anAckGoesInTheGreatestEpoch);
+        Check.part("The client writes .. 3 as well when it has sent its DONE",
+                NetEdgesTest::theClientWritesThreeWithItsDone);
+        Check.part("It READS 0; 2 as well when it has taken the ANSWER", NetEdgesTest::theClientReadsTwoWithTheAnswer);
+        Check.part("It READS 0; 2 as well ..; 3 as well ..", NetEdgesTest::theClientReadsOnInLesserEpochs);
+        Check.part("writes and reads 3 as well when it has taken the client's DONE",
+                NetEdgesTest::theServerReadsThreeWithTheClientsDone);
+        Check.part("The server writes and reads 0; .. 2 as well ..; .. 3 as well ..",
+                NetEdgesTest::theServerReadsOnInLesserEpochs);
         Check.end();
     }
 
     private static void theNetIsEmptyAtFirst() {
-        Check.begin("THE NET holds records, at first none");
         Counted x = new Counted(5, 8);
         Check.due("waiting", x.waiting(), 0);
         Check.due("record", x.record(0), BAD);
@@ -41,7 +52,6 @@ public final class NetEdgesTest {
     }
 
     private static void whatIsSentComesBehindAllOthers() {
-        Check.begin("one that is sent comes behind all others");
         Counted x = new Counted(5, 8);
         x.start();
         Drive.ticks(x, 12);
@@ -59,7 +69,6 @@ public final class NetEdgesTest {
     }
 
     private static void helloIsLost() {
-        Check.begin("with 60 there it is LOST (a HELLO)");
         Counted x = new Counted(5, 8);
         x.start();
         Drive.copyUntil(x, 0, FULL - 1);
@@ -77,7 +86,6 @@ public final class NetEdgesTest {
     }
 
     private static void aRecordThatIsDeliveredLeavesRoom() {
-        Check.begin("DELIVERING a record takes it out of the net (so what is sent then finds room)");
         Counted x = new Counted(31, 8);
         x.start();
         Drive.copyUntil(x, 0, FULL);
@@ -100,7 +108,6 @@ public final class NetEdgesTest {
     }
 
     private static void partOfAFlightIsLost() {
-        Check.begin("with 60 there it is LOST (of nine fragments those that find no room)");
         int[][] due = {{50, 58, 0}, {51, 59, 0}, {52, 60, 0}, {53, 60, 1}, {54, 60, 2}, {59, 60, 7}, {60, 60, 8}};
         for (int[] row : due) {
             Counted x = Drive.helloAgainSent(31, 8);
@@ -115,7 +122,6 @@ public final class NetEdgesTest {
     }
 
     private static void partOfAFlightThatIsSentAgainIsLost() {
-        Check.begin("with 60 there it is LOST (of fragments that are sent again those that find no room)");
         int[][] due = {{49, 59, 0, 1020015}, {50, 60, 0, 1020015}, {51, 60, 1, 1020014}, {52, 60, 2, 1020013},
             {58, 60, 8, 1000002}, {59, 60, 9, 2}, {60, 60, 10, 1000001}};
         for (int[] row : due) {
@@ -129,7 +135,6 @@ public final class NetEdgesTest {
     }
 
     private static void anAckIsLost() {
-        Check.begin("with 60 there it is LOST (an ACK)");
         Counted x = Drive.flightSent(31, 8);
         x.deliver(0);
         Drive.copyUntil(x, 0, FULL);
@@ -151,7 +156,6 @@ public final class NetEdgesTest {
     }
 
     private static void dataIsLost() {
-        Check.begin("with 60 there it is LOST (DATA)");
         for (int side = 0; side < 2; side++) {
             Counted x = Drive.through(5, 8);
             int first = side == 0 ? 230000 : 1230001;
@@ -172,7 +176,6 @@ public final class NetEdgesTest {
     }
 
     private static void anAckHasEightNamesAtMost() {
-        Check.begin("an ACK (up to 8 names of records, each an epoch and a number)");
         for (int pieces = 1; pieces <= 8; pieces++) {
             Counted x = Drive.flightSent(31, 8);
             for (int i = 0; i < pieces; i++) {
@@ -194,7 +197,6 @@ public final class NetEdgesTest {
     }
 
     private static void eachEpochIsNumberedFromZero() {
-        Check.begin("Each side numbers its records in each epoch 0, 1, 2, ..");
         Counted x = new Counted(0, 24);
         x.start();
         Check.due("the client in epoch 0", x.record(0), 0);
@@ -228,7 +230,6 @@ public final class NetEdgesTest {
     }
 
     private static void nothingElseUsesANumber() {
-        Check.begin("Each side numbers its records in each epoch 0, 1, 2, .. (copies and refused calls are none)");
         Counted x = Drive.flightSent(5, 8);
         x.send(0, 1);
         x.send(1, 1);
@@ -249,7 +250,6 @@ public final class NetEdgesTest {
     }
 
     private static void aRetryHasTheNumberOfItsHello() {
-        Check.begin("a RETRY has the number of the record with the HELLO that it answers");
         Counted x = new Counted(5, 8);
         x.start();
         Drive.ticks(x, 124);
@@ -274,8 +274,6 @@ public final class NetEdgesTest {
     }
 
     private static void theServerGoesOnFromTheHelloAgain() {
-        Check.begin("the server's other records in epoch 0 are numbered from the number of the record with the HELLO "
-                + "AGAIN that it took");
         Counted x = Drive.helloAgainSent(0, 24);
         Drive.ticks(x, 12);
         Check.due("HELLO AGAIN 1", x.record(0), 1);
@@ -292,8 +290,6 @@ public final class NetEdgesTest {
     }
 
     private static void eachMessageHasItsEpoch() {
-        Check.begin("HELLO, RETRY, HELLO AGAIN and ANSWER go in epoch 0, TERMS, PROOF and both DONE in epoch 2, DATA in "
-                + "epoch 3");
         Counted x = new Counted(0, 24);
         x.start();
         epochs("HELLO", x, 0);
@@ -320,7 +316,6 @@ public final class NetEdgesTest {
     }
 
     private static void anAckGoesInTheGreatestEpoch() {
-        Check.begin("an ACK in the greatest epoch that its side WRITES");
         Counted x = Drive.flightSent(0, 24);
         x.deliver(0);
         Drive.ticks(x, 2);
@@ -334,7 +329,6 @@ public final class NetEdgesTest {
     }
 
     private static void theClientWritesThreeWithItsDone() {
-        Check.begin("The client writes .. 3 as well when it has sent its DONE");
         Counted x = Drive.flightSent(31, 8);
         for (int i = 0; i < 8; i++) {
             Check.no("before piece " + i, x.send(0, i));
@@ -347,7 +341,6 @@ public final class NetEdgesTest {
     }
 
     private static void theClientReadsTwoWithTheAnswer() {
-        Check.begin("It READS 0; 2 as well when it has taken the ANSWER");
         Counted x = Drive.flightSent(0, 24);
         for (int i = 0; i < 4; i++) {
             x.copy(i);
@@ -365,7 +358,6 @@ public final class NetEdgesTest {
     }
 
     private static void theClientReadsOnInLesserEpochs() {
-        Check.begin("It READS 0; 2 as well ..; 3 as well ..");
         Counted x = new Counted(0, 24);
         x.start();
         Drive.ticks(x, 4);
@@ -385,7 +377,6 @@ public final class NetEdgesTest {
     }
 
     private static void theServerReadsThreeWithTheClientsDone() {
-        Check.begin("writes and reads 3 as well when it has taken the client's DONE");
         Counted x = Drive.clientDoneSent(0, 24);
         x.send(0, 11);
         x.copy(1);
@@ -403,7 +394,6 @@ public final class NetEdgesTest {
     }
 
     private static void theServerReadsOnInLesserEpochs() {
-        Check.begin("The server writes and reads 0; .. 2 as well ..; .. 3 as well ..");
         Counted x = new Counted(0, 24);
         x.start();
         x.copy(0);

@@ -1,19 +1,23 @@
 /** The sentences on ticks and states that name an edge, each with a test of its own. */
 public final class TickEdgesTest {
     public static void main(String[] args) {
-        theClockGoesOnByOne();
-        theClientComesFirst();
-        anAckIsSentWhenItIsDue();
-        anAckIsDueNoMoreWhenItIsSent();
-        anAckIsDueNoMoreWhenTheStateChanges();
-        nothingIsSentBetweenTicks();
-        theStatesOfTheClient();
-        theStatesOfTheServer();
+        Check.part("A TICK: the clock goes on by 1.", TickEdgesTest::theClockGoesOnByOne);
+        Check.part("Then for the client, then for the server", TickEdgesTest::theClientComesFirst);
+        Check.part("if an ACK is due now, it is sent", TickEdgesTest::anAckIsSentWhenItIsDue);
+        Check.part("(and due no more)", TickEdgesTest::anAckIsDueNoMoreWhenItIsSent);
+        Check.part("An ACK that is due is due no more when the state changes.",
+                TickEdgesTest::anAckIsDueNoMoreWhenTheStateChanges);
+        Check.part("A TICK: .. Then .. if it has waited long enough, what is said above. (nothing by other calls)",
+                TickEdgesTest::nothingIsSentBetweenTicks);
+        Check.part("STATES of the client: 0 nothing yet, 1 has sent HELLO, 2 has sent HELLO AGAIN, 3 has sent its "
+                + "DONE, 4 its DONE is acknowledged (no fragment of it is open), 5 failed.",
+                TickEdgesTest::theStatesOfTheClient);
+        Check.part("Of the server: 0 nothing, 1 has taken HELLO AGAIN and sent its flight, 2 has taken the client's "
+                + "DONE, 5 failed.", TickEdgesTest::theStatesOfTheServer);
         Check.end();
     }
 
     private static void theClockGoesOnByOne() {
-        Check.begin("A TICK: the clock goes on by 1.");
         Counted x = new Counted(0, 24);
         x.start();
         int[] due = new int[160];
@@ -27,7 +31,6 @@ public final class TickEdgesTest {
     }
 
     private static void theClientComesFirst() {
-        Check.begin("Then for the client, then for the server");
         Counted x = Drive.flightSent(0, 24);
         Drive.dropAll(x);
         Check.due("both send again", Drive.ticks(x, 4), 5);
@@ -54,7 +57,6 @@ public final class TickEdgesTest {
     }
 
     private static void anAckIsSentWhenItIsDue() {
-        Check.begin("if an ACK is due now, it is sent");
         Counted x = Drive.flightSent(0, 24);
         x.deliver(0);
         Check.due("not at once", x.waiting(), 3);
@@ -66,7 +68,6 @@ public final class TickEdgesTest {
     }
 
     private static void anAckIsDueNoMoreWhenItIsSent() {
-        Check.begin("(and due no more)");
         Counted x = Drive.flightSent(0, 24);
         Drive.ticks(x, 4);
         x.deliver(0);
@@ -77,7 +78,6 @@ public final class TickEdgesTest {
     }
 
     private static void anAckIsDueNoMoreWhenTheStateChanges() {
-        Check.begin("An ACK that is due is due no more when the state changes.");
         for (int ticks = 0; ticks < 2; ticks++) {
             Counted x = Drive.flightSent(0, 24);
             for (int i = 0; i < 3; i++) {
@@ -96,7 +96,6 @@ public final class TickEdgesTest {
     }
 
     private static void nothingIsSentBetweenTicks() {
-        Check.begin("A TICK: .. Then .. if it has waited long enough, what is said above. (nothing by other calls)");
         Counted x = new Counted(0, 24);
         x.start();
         Drive.ticks(x, 3);
@@ -117,8 +116,6 @@ public final class TickEdgesTest {
     }
 
     private static void theStatesOfTheClient() {
-        Check.begin("STATES of the client: 0 nothing yet, 1 has sent HELLO, 2 has sent HELLO AGAIN, 3 has sent its DONE, 4 "
-                + "its DONE is acknowledged (no fragment of it is open), 5 failed.");
         Counted x = new Counted(0, 24);
         states("new", x, 0, 0);
         x.start();
@@ -143,8 +140,6 @@ public final class TickEdgesTest {
     }
 
     private static void theStatesOfTheServer() {
-        Check.begin("Of the server: 0 nothing, 1 has taken HELLO AGAIN and sent its flight, 2 has taken the client's DONE, 5 "
-                + "failed.");
         Counted x = new Counted(0, 24);
         x.start();
         x.copy(0);

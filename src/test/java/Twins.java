@@ -13,6 +13,8 @@ final class Twins {
             Check.yes("send of the server", one.send(1, round) == other.send(1, round));
             for (int i = 0; i < 8; i++) {
                 Check.due("deliver", one.deliver(i / 3), other.deliver(i / 3));
+                int last = one.waiting() - 1;
+                Check.due("the last record's content", one.content(last), other.content(last));
             }
             Check.yes("start", one.start() == other.start());
         }

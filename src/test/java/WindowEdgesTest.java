@@ -1,22 +1,35 @@
 /** The sentences on windows, each edge with a test of its own. */
 public final class WindowEdgesTest {
     public static void main(String[] args) {
-        whatWasLetInIsOld();
-        fifteenLessIsNotOld();
-        sixteenLessIsOldInEpoch3();
-        sixteenLessIsOldInEpoch2AtTheClient();
-        sixteenLessIsOldInEpoch2AtTheServer();
-        sixteenLessIsOldInEpoch0AtTheClient();
-        thirteenLessIsNotOldInEpoch0AtTheServer();
-        leapsForgetNothingThatIsNear();
-        aLeapOverLostRecords();
-        whatIsThrownAwayIsNotLetIn();
-        whatIsNotReadIsNotLetIn();
-        whatIsDroppedIsNotLetIn();
-        aHelloInState0IsNotLetIn();
-        whatHasNoEffectIsLetIn();
-        eachEpochHasItsOwn();
-        eachSideHasItsOwn();
+        Check.part("A record is OLD if its number was let in", WindowEdgesTest::whatWasLetInIsOld);
+        Check.part("less than the greatest that was let in by 16 or more (15 is less)",
+                WindowEdgesTest::fifteenLessIsNotOld);
+        Check.part("less than the greatest that was let in by 16 or more (epoch 3)",
+                WindowEdgesTest::sixteenLessIsOldInEpoch3);
+        Check.part("less than the greatest that was let in by 16 or more (epoch 2 at the client)",
+                WindowEdgesTest::sixteenLessIsOldInEpoch2AtTheClient);
+        Check.part("less than the greatest that was let in by 16 or more (epoch 2 at the server)",
+                WindowEdgesTest::sixteenLessIsOldInEpoch2AtTheServer);
+        Check.part("less than the greatest that was let in by 16 or more (epoch 0 at the client)",
+                WindowEdgesTest::sixteenLessIsOldInEpoch0AtTheClient);
+        Check.part("less than the greatest that was let in by 16 or more (epoch 0 at the server, where 13 is the most)",
+                WindowEdgesTest::thirteenLessIsNotOldInEpoch0AtTheServer);
+        Check.part("For each epoch that it reads a side knows which numbers it has let in (after a leap)",
+                WindowEdgesTest::leapsForgetNothingThatIsNear);
+        Check.part("less than the greatest that was let in by 16 or more (a leap over lost ones)",
+                WindowEdgesTest::aLeapOverLostRecords);
+        Check.part("It is thrown away, changing nothing more, if it is spoilt (nor is its number let in)",
+                WindowEdgesTest::whatIsThrownAwayIsNotLetIn);
+        Check.part("It is thrown away, changing nothing more, if .. it does not read the epoch (nor is its number let "
+                + "in)", WindowEdgesTest::whatIsNotReadIsNotLetIn);
+        Check.part("Record i is taken out of the net (and handed to nobody)", WindowEdgesTest::whatIsDroppedIsNotLetIn);
+        Check.part("(but the server in state 0 lets nothing in but a HELLO AGAIN)",
+                WindowEdgesTest::aHelloInState0IsNotLetIn);
+        Check.part("Whatever else is let in has no effect (but its number is let in)",
+                WindowEdgesTest::whatHasNoEffectIsLetIn);
+        Check.part("For each epoch that it reads a side knows which numbers it has let in",
+                WindowEdgesTest::eachEpochHasItsOwn);
+        Check.part("a side knows which numbers it has let in", WindowEdgesTest::eachSideHasItsOwn);
         Check.end();
     }
 
@@ -33,7 +46,6 @@ public final class WindowEdgesTest {
     }
 
     private static void whatWasLetInIsOld() {
-        Check.begin("A record is OLD if its number was let in");
         for (int side = 0; side < 2; side++) {
             Counted x = dataSent(side, 1, 16);
             for (int i = 0; i < 16; i++) {
@@ -54,7 +66,6 @@ public final class WindowEdgesTest {
     }
 
     private static void fifteenLessIsNotOld() {
-        Check.begin("less than the greatest that was let in by 16 or more (15 is less)");
         for (int side = 0; side < 2; side++) {
             Counted x = dataSent(side, 1, 16);
             x.copy(0);
@@ -69,7 +80,6 @@ public final class WindowEdgesTest {
     }
 
     private static void sixteenLessIsOldInEpoch3() {
-        Check.begin("less than the greatest that was let in by 16 or more (epoch 3)");
         for (int side = 0; side < 2; side++) {
             Counted x = dataSent(side, 1, 40);
             Check.due("number 20", x.deliver(19), 1);
@@ -87,7 +97,6 @@ public final class WindowEdgesTest {
     }
 
     private static void sixteenLessIsOldInEpoch2AtTheClient() {
-        Check.begin("less than the greatest that was let in by 16 or more (epoch 2 at the client)");
         int[][] due = {{15, 16, 1, 1, 1}, {16, 19, 0, 1, 1}, {17, 20, 0, 0, 1}};
         for (int[] row : due) {
             Counted x = Drive.flightSent(31, 8);
@@ -118,7 +127,6 @@ public final class WindowEdgesTest {
     }
 
     private static void sixteenLessIsOldInEpoch2AtTheServer() {
-        Check.begin("less than the greatest that was let in by 16 or more (epoch 2 at the server)");
         Counted x = seventeenAcksSent();
         int last = x.waiting() - 1;
         Check.due("ACK 0", x.record(0), 120000);
@@ -152,7 +160,6 @@ public final class WindowEdgesTest {
     }
 
     private static void sixteenLessIsOldInEpoch0AtTheClient() {
-        Check.begin("less than the greatest that was let in by 16 or more (epoch 0 at the client)");
         Counted x = sixteenAnswersSent();
         Check.due("RETRY 0", x.record(4), 1000000);
         Check.due("RETRY 1", x.record(5), 1000001);
@@ -167,7 +174,6 @@ public final class WindowEdgesTest {
     }
 
     private static void thirteenLessIsNotOldInEpoch0AtTheServer() {
-        Check.begin("less than the greatest that was let in by 16 or more (epoch 0 at the server, where 13 is the most)");
         Counted x = new Counted(0, 24);
         x.start();
         Drive.ticks(x, 124);
@@ -183,12 +189,13 @@ public final class WindowEdgesTest {
     }
 
     private static void leapsForgetNothingThatIsNear() {
-        Check.begin("For each epoch that it reads a side knows which numbers it has let in (after a leap)");
         for (int leap : new int[] {1, 2, 14, 15, 16, 17, 18, 30, 31, 32, 33, 34, 47, 48, 49, 57}) {
             Counted x = dataSent(0, 0, leap);
             x.copy(0);
+            x.copy(leap);
             Check.due("number 0", x.deliver(0), 1);
             Check.due("number " + leap, x.deliver(leap - 1), 1);
+            Check.due("number " + leap + " once more", x.deliver(x.waiting() - 1), 0);
             Check.due("number 0 once more", x.deliver(x.waiting() - 1), 0);
             for (int number = 1; number < leap; number++) {
                 x.copy(0);
@@ -200,7 +207,6 @@ public final class WindowEdgesTest {
     }
 
     private static void aLeapOverLostRecords() {
-        Check.begin("less than the greatest that was let in by 16 or more (a leap over lost ones)");
         for (int lost : new int[] {3, 4, 5, 63, 64, 65, 127, 128, 129, 255, 256}) {
             Counted x = Drive.through(3, 8);
             Drive.sendMany(x, 0, 60 + lost);
@@ -216,7 +222,6 @@ public final class WindowEdgesTest {
     }
 
     private static void whatIsThrownAwayIsNotLetIn() {
-        Check.begin("It is thrown away, changing nothing more, if it is spoilt (nor is its number let in)");
         for (int side = 0; side < 2; side++) {
             Counted x = dataSent(side, 1, 30);
             x.copy(29);
@@ -233,7 +238,6 @@ public final class WindowEdgesTest {
     }
 
     private static void whatIsNotReadIsNotLetIn() {
-        Check.begin("It is thrown away, changing nothing more, if .. it does not read the epoch (nor is its number let in)");
         Counted x = Drive.clientDoneSent(3, 8);
         Drive.sendMany(x, 0, 30);
         x.copy(30);
@@ -250,7 +254,6 @@ public final class WindowEdgesTest {
     }
 
     private static void whatIsDroppedIsNotLetIn() {
-        Check.begin("Record i is taken out of the net (and handed to nobody)");
         Counted x = dataSent(0, 0, 30);
         x.copy(30);
         x.drop(30);
@@ -259,7 +262,6 @@ public final class WindowEdgesTest {
     }
 
     private static void aHelloInState0IsNotLetIn() {
-        Check.begin("(but the server in state 0 lets nothing in but a HELLO AGAIN)");
         Counted x = new Counted(0, 24);
         x.start();
         x.copy(0);
@@ -275,7 +277,6 @@ public final class WindowEdgesTest {
     }
 
     private static void whatHasNoEffectIsLetIn() {
-        Check.begin("Whatever else is let in has no effect (but its number is let in)");
         Counted x = new Counted(0, 24);
         x.start();
         Drive.ticks(x, 4);
@@ -301,7 +302,6 @@ public final class WindowEdgesTest {
     }
 
     private static void eachEpochHasItsOwn() {
-        Check.begin("For each epoch that it reads a side knows which numbers it has let in");
         Counted x = Drive.clientDoneSent(3, 8);
         Drive.sendMany(x, 0, 40);
         Check.due("DONE 0 in epoch 2", x.deliver(0), 1);
@@ -318,7 +318,6 @@ public final class WindowEdgesTest {
     }
 
     private static void eachSideHasItsOwn() {
-        Check.begin("a side knows which numbers it has let in");
         Counted x = Drive.through(3, 8);
         Drive.sendMany(x, 0, 29);
         Drive.sendMany(x, 1, 28);
